@@ -516,49 +516,22 @@ public final class Siegelines {
                 sum = sum * 31 + squareFact(square, what);
             }
         }
-        sum = addGuns(sum);
-        sum = addCompanies(sum);
-        sum = addMines(sum);
-        return sum * 31 + (live.isAllSound() ? 1 : 0);
-    }
-
-    private long addGuns(long before) {
-        long sum = before;
         for (Gun gun : live.guns) {
-            if (!gun.isPlaced()) {
-                continue;
-            }
             for (int what : GUN_FACTS) {
-                sum = sum * 31 + gunFact(gun, what);
+                sum = gun.isPlaced() ? sum * 31 + gunFact(gun, what) : sum;
             }
         }
-        return sum;
-    }
-
-    private long addCompanies(long before) {
-        long sum = before;
         for (Company company : live.companies) {
-            if (!company.isPlaced()) {
-                continue;
-            }
             for (int what : COMPANY_FACTS) {
-                sum = sum * 31 + companyFact(company, what);
+                sum = company.isPlaced() ? sum * 31 + companyFact(company, what) : sum;
             }
         }
-        return sum;
-    }
-
-    private long addMines(long before) {
-        long sum = before;
         for (Mine mine : live.mines) {
-            if (!mine.isBegun()) {
-                continue;
-            }
             for (int what : MINE_FACTS) {
-                sum = sum * 31 + mineFact(mine, what);
+                sum = mine.isBegun() ? sum * 31 + mineFact(mine, what) : sum;
             }
         }
-        return sum;
+        return sum * 31 + (live.isAllSound() ? 1 : 0);
     }
 
     private int foreseen(int what) {
@@ -846,11 +819,14 @@ public final class Siegelines {
         }
 
         int belongsTo(int square) {
-            int kind = workOf(square);
-            if (kind == WALL || kind == TOWN || kind == COVER || (kind != NONE && square == gate)) {
+            if (square < 0 || square >= count || square >= MOST_SQUARES) {
+                return NONE;
+            }
+            int kind = work[square];
+            if (kind == WALL || kind == TOWN || kind == COVER || square == gate) {
                 return GARRISON;
             }
-            return kind == TRENCH || (kind != NONE && square == camp) ? BESIEGERS : NONE;
+            return kind == TRENCH || square == camp ? BESIEGERS : NONE;
         }
 
         int far(int a, int b) {
@@ -878,7 +854,7 @@ public final class Siegelines {
 
         /** The square beside a square in a direction (0 up, 1 right, 2 down, 3 left), or NONE. */
         int next(int square, int direction) {
-            if (!isOn(square)) {
+            if (square < 0 || square >= count || square >= MOST_SQUARES) {
                 return NONE;
             }
             switch (direction) {
@@ -906,31 +882,33 @@ public final class Siegelines {
         }
 
         int bodyOf(int square) {
-            return topOf(square) + (workOf(square) == TRENCH ? -2 : 1);
+            return topOf(square) + bodyOverTop(square);
         }
 
-        /** The square of k in the line from a to b, n being FAR of both; NONE off the map. */
-        int inLine(int a, int b, int n, int k) {
-            if (n < 1 || !isOn(a) || !isOn(b)) {
-                return NONE;
-            }
-            int c = column[a] + Math.floorDiv(2 * k * (column[b] - column[a]) + n, 2 * n);
-            int r = line[a] + Math.floorDiv(2 * k * (line[b] - line[a]) + n, 2 * n);
-            return c >= 0 && c < wide && r >= 0 && r < high ? r * wide + c : NONE;
+        private int bodyOverTop(int square) {
+            return square >= 0 && square < count && square < MOST_SQUARES && work[square] == TRENCH ? -2 : 1;
+        }
+
+        /** How many columns or rows from its beginning a line of n squares is at its square k. */
+        private static int alongLine(int apart, int n, int k) {
+            return n > 0 ? Math.floorDiv(2 * k * apart + n, 2 * n) : 0;
         }
 
         boolean isSeen(int a, int b, int sight) {
-            int n = far(a, b);
-            if (n == 0) {
-                return true;
+            if (!isOn(a) || !isOn(b)) {
+                return false;
             }
+            int across = column[b] - column[a];
+            int down = line[b] - line[a];
+            int n = Math.max(Math.abs(across), Math.abs(down));
             if (n > sight) {
                 return false;
             }
             int eye = topOf(a) + 2;
-            int body = bodyOf(b);
+            int body = topOf(b) + bodyOverTop(b);
             for (int k = 1; k < n; k++) {
-                if (topOf(inLine(a, b, n, k)) * n > eye * (n - k) + body * k) {
+                int hiding = a + alongLine(down, n, k) * wide + alongLine(across, n, k);
+                if (topOf(hiding) * n > eye * (n - k) + body * k) {
                     return false;
                 }
             }
@@ -938,11 +916,15 @@ public final class Siegelines {
         }
 
         boolean isRaked(int a, int square, int sight) {
-            if (a == square || workOf(square) != TRENCH || !isSeen(a, square, sight)) {
+            if (a == square || !isOn(a) || !isOn(square) || work[square] != TRENCH || !isSeen(a, square, sight)) {
                 return false;
             }
-            int n = far(a, square);
-            return workOf(inLine(a, square, n, n + 1)) == TRENCH;
+            int across = column[square] - column[a];
+            int down = line[square] - line[a];
+            int n = Math.max(Math.abs(across), Math.abs(down));
+            int c = column[a] + alongLine(across, n, n + 1);
+            int r = line[a] + alongLine(down, n, n + 1);
+            return c >= 0 && c < wide && r >= 0 && r < high && workOf(r * wide + c) == TRENCH;
         }
 
         /** Whether a square of a WORK is so FAR or less from a square. */
@@ -1467,6 +1449,12 @@ public final class Siegelines {
             return lost;
         }
 
+        void countFight(int winner) {
+            of(winner).won++;
+            of(winner).changeMorale(4);
+            of(1 - winner).changeMorale(-4);
+        }
+
         void batter(int square, int blowOn) {
             if (!ground.isOn(square) || ground.work[square] != WALL) {
                 return;
@@ -1486,7 +1474,10 @@ public final class Siegelines {
 
         void letHourGo() {
             for (Gun gun : guns) {
-                Gunnery.fire(this, gun);
+                int shots = Gunnery.fire(this, gun);
+                if (shots > 0) {
+                    Gunnery.strike(this, gun, shots);
+                }
             }
             if (askWhetherOver()) {
                 return;
@@ -1652,20 +1643,21 @@ public final class Siegelines {
             return cool < most ? cool : most;
         }
 
-        static void fire(Siege siege, Gun gun) {
+        /** Lets a gun fire, if it can; returns its shots, whose effect is told by strike. */
+        static int fire(Siege siege, Gun gun) {
             int shots = shotsOf(siege, gun);
             if (shots < 1) {
                 gun.heat = gun.heat > 0 ? gun.heat - 1 : 0;
-                return;
+                return 0;
             }
             Side side = siege.of(gun.side);
             side.spend(shots * gun.calibre);
             side.shots += shots;
             gun.heat = gun.heat < 3 ? gun.heat + 1 : 3;
-            strike(siege, gun, shots);
+            return shots;
         }
 
-        private static void strike(Siege siege, Gun gun, int shots) {
+        static void strike(Siege siege, Gun gun, int shots) {
             int other = 1 - gun.side;
             siege.batter(gun.aim, shots * gun.calibre);
             for (Gun hit : siege.guns) {
@@ -2003,8 +1995,15 @@ public final class Siegelines {
             if (!ground.isOn(goal) || !canAssault(ground, company.square, goal)) {
                 return;
             }
-            if (siege.isHeldBy(other, goal) && !winsFight(siege, company, other)) {
-                return;
+            if (siege.isHeldBy(other, goal)) {
+                boolean wins = attackOf(siege, company) > defenceOf(siege, other, goal);
+                siege.countFight(wins ? company.side : other);
+                if (!wins) {
+                    payForDefeat(siege, company, other);
+                    return;
+                }
+                siege.takeMen(company, company.men / 8);
+                putToFlight(siege, other, goal);
             }
             company.square = goal;
             company.restNow();
@@ -2019,27 +2018,14 @@ public final class Siegelines {
             }
         }
 
-        private static boolean winsFight(Siege siege, Company company, int other) {
-            int goal = company.goal;
-            boolean hasWon = attackOf(siege, company) > defenceOf(siege, other, goal);
-            Side winner = siege.of(hasWon ? company.side : other);
-            Side loser = siege.of(hasWon ? other : company.side);
-            winner.won++;
-            winner.changeMorale(4);
-            loser.changeMorale(-4);
-            if (hasWon) {
-                siege.takeMen(company, company.men / 8);
-                putToFlight(siege, other, goal);
-                return true;
-            }
+        private static void payForDefeat(Siege siege, Company company, int other) {
             for (Company defender : siege.companies) {
-                if (defender.isAt(other, goal)) {
+                if (defender.isAt(other, company.goal)) {
                     siege.takeMen(defender, defender.men / 8);
                 }
             }
             siege.takeMen(company, quarterOf(company.men));
             company.restNow();
-            return false;
         }
 
         private static int quarterOf(int men) {
