@@ -1,0 +1,253 @@
+/** Part 8 and promises 35 to 37: the order of an hour, forecasts, soundness and the digest. */
+final class JournalTest {
+    private static final Checks checks = new Checks("JournalTest");
+
+    public static void main(String[] args) {
+        hourInOrder();
+        minesBehindCompanies();
+        forecastTells();
+        forecastOver();
+        forecastChangesNothing();
+        forecastWrong();
+        sound();
+        digests();
+        sameCallsSameAnswers();
+        twoObjects();
+        checks.end();
+    }
+
+    /** Guns fire ahead of the companies, and these act by numbers. */
+    private static void hourInOrder() {
+        Siegelines x = Fields.plain(5, 5);
+        x.stores(0, 99, 99, 9, 60);
+        x.gun(0, 0, 1);
+        x.company(1, 3, 100);
+        x.company(0, 20, 100);
+        x.company(1, 24, 9);
+        x.begin();
+        x.aim(0, 3);
+        x.order(0, 4, 4);
+        x.pass(1);
+        checks.due("hit ahead of its march", 88, x.ofCompany(0, 2));
+        checks.due("then it went", 4, x.ofCompany(0, 1));
+        Siegelines y = Fields.plain(5, 5);
+        y.company(0, 6, 100);
+        y.company(0, 11, 100);
+        y.company(1, 12, 9);
+        y.company(1, 24, 9);
+        y.begin();
+        y.order(0, 4, 12);
+        y.order(1, 5, 12);
+        y.pass(1);
+        checks.due("the first does not go where the second storms", 6, y.ofCompany(0, 1));
+        checks.due("the second storms", 12, y.ofCompany(1, 1));
+        y.pass(1);
+        checks.due("now the first goes", 7, y.ofCompany(0, 1));
+    }
+
+    private static void minesBehindCompanies() {
+        Siegelines x = Fields.plain(5, 5);
+        x.ground(1, 0, 0, 5, 0);
+        x.stores(0, 99, 99, 9, 60);
+        x.stores(1, 99, 99, 9, 60);
+        x.company(0, 1, 50);
+        x.company(1, 24, 9);
+        x.begin();
+        x.mine(0, 1);
+        x.order(0, 4, 0);
+        x.pass(1);
+        checks.due("it left its mouth ahead of the mines", 0, x.ofMine(0, 5));
+        x.order(0, 4, 1);
+        x.pass(20);
+        x.order(0, 3, 0);
+        x.pass(3);
+        checks.due("hours on the mouth: 4 and 4 and 4 and 4, stopped", 1, x.ofMine(0, 6));
+        checks.due("its squares", 4, x.ofMine(0, 7));
+        checks.due("midnight is behind the acts", 50, x.ofCompany(0, 2) + x.ofSide(0, 11));
+    }
+
+    private static Siegelines mustered(int seed) {
+        Siegelines x = new Siegelines();
+        x.lay(12, 12, seed);
+        x.muster(seed);
+        x.begin();
+        x.order(0, 4, 41);
+        x.order(1, 4, 38);
+        x.order(2, 1, 1);
+        x.order(3, 3, 0);
+        x.order(4, 4, 66);
+        x.order(5, 2, 0);
+        for (int gun = 0; gun < 3; gun++) {
+            x.aim(gun, 52 + gun);
+        }
+        return x;
+    }
+
+    private static void forecastTells() {
+        for (int seed = 0; seed < 100; seed += 7) {
+            for (int hours = 1; hours <= 48; hours += 47) {
+                Siegelines x = mustered(seed);
+                long before = x.digest();
+                int over = x.forecast(hours, 0);
+                int honours = x.forecast(hours, 1);
+                int besiegers = x.forecast(hours, 2);
+                int garrison = x.forecast(hours, 3);
+                int falls = x.forecast(hours, 4);
+                checks.due("a forecast changes nothing", before, x.digest());
+                x.pass(hours);
+                checks.due("the clock when it is over", x.ofSiege(1) == 2 ? x.ofSiege(0) : -1, over);
+                checks.due("honours then", x.ofSiege(2), honours);
+                checks.due("men of the besiegers", x.ofSide(0, 5), besiegers);
+                checks.due("men of the garrison", x.ofSide(1, 5), garrison);
+                checks.due("falls", x.ofSiege(4), falls);
+            }
+        }
+    }
+
+    private static void forecastOver() {
+        Siegelines x = Fields.plain(5, 5);
+        x.ground(12, 0, 0, 1, 5);
+        x.stores(0, 99, 999, 9, 60);
+        x.gun(0, 11, 1);
+        x.company(0, 22, 100);
+        x.company(1, 24, 10);
+        x.begin();
+        x.aim(0, 12);
+        x.order(0, 4, 23);
+        x.pass(1);
+        x.order(0, 5, 24);
+        checks.due("a fall by the second hour of fire", 1, x.forecast(1, 4));
+        checks.due("over at once", 1, x.forecast(1, 0));
+        checks.due("honours", 0, x.forecast(48, 1));
+        checks.due("men of the besiegers: 100 less 12", 88, x.forecast(1, 2));
+        checks.due("men of the garrison: 10 less 2 less 4", 4, x.forecast(1, 3));
+        checks.due("nothing is changed", 1, x.ofSiege(1));
+        Siegelines lifted = Fields.plain(5, 5);
+        lifted.stores(0, 0, 0, 0, 6);
+        lifted.stores(1, 0, 99, 0, 60);
+        lifted.company(0, 0, 10);
+        lifted.company(1, 24, 10);
+        lifted.begin();
+        checks.due("not over in 23 hours", -1, lifted.forecast(23, 0));
+        checks.due("no honours", -1, lifted.forecast(23, 1));
+        checks.due("lifted in the 24th", 23, lifted.forecast(24, 0));
+        checks.due("without honours", -1, lifted.forecast(24, 1));
+    }
+
+    private static void forecastChangesNothing() {
+        Siegelines asked = mustered(5);
+        Siegelines left = mustered(5);
+        for (int day = 0; day < 6; day++) {
+            for (int what = 0; what < 5; what++) {
+                asked.forecast(48, what);
+            }
+            asked.march(0, 100);
+            asked.sap(1);
+            asked.target(0);
+            asked.storm(0, 1);
+            asked.pass(17);
+            left.pass(17);
+            checks.due("as without a forecast, day " + day, left.digest(), asked.digest());
+        }
+    }
+
+    private static void forecastWrong() {
+        Siegelines x = mustered(3);
+        int[][] wrong = {{0, 0}, {49, 0}, {-1, 0}, {1, -1}, {1, 5}, {Integer.MAX_VALUE, 0}};
+        for (int[] w : wrong) {
+            checks.refuses("forecast(" + w[0] + ", " + w[1] + ")", Checks.ARGUMENT, x,
+                () -> x.forecast(w[0], w[1]));
+        }
+        Siegelines y = Fields.plain(5, 5);
+        checks.refuses("a forecast ahead of the siege", Checks.STATE, y, () -> y.forecast(1, 0));
+        checks.refuses("a wrong one ahead of the siege", Checks.ARGUMENT, y, () -> y.forecast(0, 0));
+    }
+
+    private static void sound() {
+        Siegelines x = mustered(11);
+        checks.holds("as it begins", x.isSound());
+        for (int day = 0; day < 12; day++) {
+            x.pass(24);
+            checks.holds("day " + day, x.isSound());
+        }
+        Siegelines y = Fields.plain(5, 5);
+        y.ground(12, 0, 0, 1, 1);
+        y.stores(0, 0, 0, 0, 1);
+        checks.holds("in the setting", y.isSound());
+    }
+
+    /** The digest as the document tells it, from what is asked. */
+    private static long digestOf(Siegelines x, int squares, int guns, int companies, int mines) {
+        long d = 58263;
+        for (int what = 0; what <= 12; what++) {
+            d = d * 31 + x.ofSiege(what);
+        }
+        for (int side = 0; side < 2; side++) {
+            for (int what = 0; what <= 12; what++) {
+                d = d * 31 + x.ofSide(side, what);
+            }
+        }
+        for (int square = 0; square < squares; square++) {
+            for (int what = 2; what <= 5; what++) {
+                d = d * 31 + x.ofSquare(square, what);
+            }
+        }
+        for (int gun = 0; gun < guns; gun++) {
+            for (int what = 1; what <= 7; what++) {
+                d = what == 2 ? d : d * 31 + x.ofGun(gun, what);
+            }
+        }
+        for (int company = 0; company < companies; company++) {
+            for (int what = 1; what <= 6; what++) {
+                d = d * 31 + x.ofCompany(company, what);
+            }
+        }
+        for (int mine = 0; mine < mines; mine++) {
+            for (int what = 2; what <= 8; what++) {
+                d = what == 3 ? d : d * 31 + x.ofMine(mine, what);
+            }
+        }
+        return d * 31 + (x.isSound() ? 1 : 0);
+    }
+
+    private static void digests() {
+        checks.due("a new object", digestOf(new Siegelines(), 0, 0, 0, 0), new Siegelines().digest());
+        Siegelines x = mustered(17);
+        checks.due("as it begins", digestOf(x, 144, 6, 8, 0), x.digest());
+        for (int day = 0; day < 6; day++) {
+            x.pass(10);
+            checks.due("digest of day " + day, digestOf(x, 144, 6, 8, 0), x.digest());
+        }
+        Siegelines y = Fields.plain(5, 6);
+        y.ground(1, 0, 0, 5, 0);
+        y.stores(0, 99, 99, 9, 60);
+        y.company(0, 1, 9);
+        y.company(1, 29, 9);
+        y.begin();
+        y.mine(0, 1);
+        y.mine(0, 2);
+        y.charge(1, 9);
+        y.pass(5);
+        checks.due("with mines", digestOf(y, 30, 0, 2, 2), y.digest());
+    }
+
+    private static void sameCallsSameAnswers() {
+        Siegelines x = mustered(23);
+        Siegelines y = mustered(23);
+        for (int day = 0; day < 8; day++) {
+            x.pass(13);
+            y.pass(13);
+            checks.due("the same calls", x.digest(), y.digest());
+        }
+    }
+
+    /** What is told to one object is not told to another. */
+    private static void twoObjects() {
+        Siegelines x = mustered(29);
+        Siegelines y = mustered(31);
+        long before = y.digest();
+        x.pass(48);
+        x.forecast(48, 0);
+        checks.due("another object", before, y.digest());
+    }
+}
