@@ -129,11 +129,7 @@ public final class Siegelines {
         if (live.phase != SETTING) {
             throw new IllegalStateException("not the setting");
         }
-        Side told = live.of(side);
-        told.powder = powder;
-        told.food = food;
-        told.gabions = gabions;
-        told.morale = morale;
+        live.of(side).tell(powder, food, gabions, morale);
         return powder + food;
     }
 
@@ -144,9 +140,7 @@ public final class Siegelines {
         if (live.phase != SETTING) {
             throw new IllegalStateException("not the setting");
         }
-        live.people = people;
-        live.supply = supply;
-        live.post.days = days;
+        live.tellTown(people, supply, days);
         return people / 20;
     }
 
@@ -687,14 +681,6 @@ public final class Siegelines {
         int camp = NONE;
         int gate = NONE;
 
-        void clear() {
-            wide = 0;
-            high = 0;
-            count = 0;
-            camp = NONE;
-            gate = NONE;
-        }
-
         void copyFrom(Ground other) {
             wide = other.wide;
             high = other.high;
@@ -944,17 +930,13 @@ public final class Siegelines {
         int calibre;
         int heat;
         int hits;
-        int state;
+        int state = READY;
         int aim = NONE;
 
         void place(int newSide, int newSquare, int newCalibre) {
             side = newSide;
             square = newSquare;
             calibre = newCalibre;
-            heat = 0;
-            hits = 0;
-            state = READY;
-            aim = NONE;
         }
 
         void copyFrom(Gun other) {
@@ -981,16 +963,13 @@ public final class Siegelines {
         int square = NONE;
         int men;
         int tired;
-        int order;
+        int order = REST;
         int goal = NONE;
 
         void place(int newSide, int newSquare, int newMen) {
             side = newSide;
             square = newSquare;
             men = newMen;
-            tired = 0;
-            order = REST;
-            goal = NONE;
         }
 
         void copyFrom(Company other) {
@@ -1028,21 +1007,13 @@ public final class Siegelines {
         int direction;
         int charge;
         int toil;
-        int state;
+        int state = DUG;
 
         void place(int newSide, int mouth, int newDirection) {
             side = newSide;
             squares[0] = mouth;
             length = 1;
             direction = newDirection;
-            charge = 0;
-            toil = 0;
-            state = DUG;
-        }
-
-        void clear() {
-            side = NONE;
-            length = 0;
         }
 
         void copyFrom(Mine other) {
@@ -1096,18 +1067,11 @@ public final class Siegelines {
         /** POWDER as the siege began, and that came as SUPPLY. */
         int brought;
 
-        void clear() {
-            powder = 0;
-            food = 0;
-            gabions = 0;
-            morale = 60;
-            hunger = 0;
-            shots = 0;
-            spent = 0;
-            losses = 0;
-            won = 0;
-            sick = 0;
-            brought = 0;
+        void tell(int newPowder, int newFood, int newGabions, int newMorale) {
+            powder = newPowder;
+            food = newFood;
+            gabions = newGabions;
+            morale = newMorale;
         }
 
         void copyFrom(Side other) {
@@ -1144,18 +1108,6 @@ public final class Siegelines {
         int days = 10;
         boolean isSetOut;
         boolean isThere;
-
-        void clear() {
-            for (int i = 0; i < MOST_LETTERS; i++) {
-                daysOut[i] = 0;
-                fate[i] = OUT;
-            }
-            sent = 0;
-            through = 0;
-            days = 10;
-            isSetOut = false;
-            isThere = false;
-        }
 
         void copyFrom(Post other) {
             for (int i = 0; i < MOST_LETTERS; i++) {
@@ -1231,29 +1183,25 @@ public final class Siegelines {
             }
         }
 
+        /** Takes back what can be told in the setting; the rest of a siege has not begun there. */
         void startOver() {
-            ground.clear();
             for (Gun gun : guns) {
                 gun.place(NONE, NONE, 0);
             }
             for (Company company : companies) {
                 company.place(NONE, NONE, 0);
             }
-            for (Mine mine : mines) {
-                mine.clear();
-            }
-            besiegers.clear();
-            garrison.clear();
-            post.clear();
             gunCount = 0;
             companyCount = 0;
-            mineCount = 0;
-            clock = 0;
-            honours = NONE;
-            falls = 0;
-            people = 0;
-            supply = 0;
-            fires = 0;
+            besiegers.tell(0, 0, 0, 60);
+            garrison.tell(0, 0, 0, 60);
+            tellTown(0, 0, 10);
+        }
+
+        void tellTown(int newPeople, int newSupply, int days) {
+            people = newPeople;
+            supply = newSupply;
+            post.days = days;
         }
 
         void copyFrom(Siege other) {
