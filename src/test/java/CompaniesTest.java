@@ -5,6 +5,7 @@ final class CompaniesTest {
     public static void main(String[] args) {
         tiredness();
         digBySoil();
+        digByLittle();
         digSeen();
         digInMarsh();
         digWithoutGabions();
@@ -15,8 +16,10 @@ final class CompaniesTest {
         marchAround();
         marchForbidden();
         marchOfGarrison();
+        marchByFew();
         mendWall();
         mendBreach();
+        mendByLittle();
         mendNothing();
         sap();
         sapWrong();
@@ -35,11 +38,13 @@ final class CompaniesTest {
         checks.due("the order stays", 5, x.ofCompany(0, 4));
         checks.due("the goal stays", 24, x.ofCompany(0, 5));
         x.order(0, 2, 0);
-        int[] guarding = {7, 6, 5, 4, 3};
+        int[] guarding = {7, 6, 5, 4, 3, 2, 1, 0, 0};
         for (int tired : guarding) {
             x.pass(1);
             checks.due("tired at guard", tired, x.ofCompany(0, 3));
         }
+        x.order(0, 5, 24);
+        x.pass(3);
         x.order(0, 0, 0);
         int[] resting = {1, 0, 0};
         for (int tired : resting) {
@@ -97,6 +102,35 @@ final class CompaniesTest {
             checks.due("gabions by soil " + soil, soil == 2 ? 3 : 5, x.ofSide(0, 2));
             checks.due("the trench belongs to the besiegers", 0, x.ofSquare(1, 7));
             checks.due("trenches", 1, x.ofSiege(11));
+        }
+    }
+
+    /** One less than the toil that is needed does not do, and just as much does. */
+    private static void digByLittle() {
+        int[] need = {20, 30, 24, 60};
+        int[] men = {90, 140, 110, 190};
+        int[] hours = {2, 2, 2, 3};
+        for (int soil = 0; soil < 4; soil++) {
+            int toil = men[soil] / 10 * hours[soil];
+            Siegelines y = Fields.plain(5, 5);
+            y.ground(6, 0, soil, 0, 0);
+            y.stores(0, 0, 500, 2, 60);
+            y.company(0, 1, men[soil]);
+            y.company(0, 7, 19);
+            y.company(1, 24, 10);
+            y.begin();
+            y.order(0, 1, 6);
+            y.pass(hours[soil]);
+            y.order(0, 0, 0);
+            y.order(1, 1, 6);
+            for (int more = toil + 1; more < need[soil]; more++) {
+                y.pass(1);
+                checks.due("19 men have 1 of toil", more, y.ofSquare(6, 4));
+                checks.due("too little on soil " + soil, 0, y.ofSquare(6, 2));
+            }
+            y.pass(1);
+            checks.due("enough on soil " + soil, 5, y.ofSquare(6, 2));
+            checks.due("who ends it is there", 6, y.ofCompany(1, 1));
         }
     }
 
@@ -337,6 +371,25 @@ final class CompaniesTest {
         checks.due("at rest", 0, x.ofCompany(1, 4));
     }
 
+    /** One man bars a way, one that is gone does not. */
+    private static void marchByFew() {
+        for (int side = 0; side < 2; side++) {
+            Siegelines x = Fields.plain(5, 5);
+            x.camp(24, 20);
+            x.company(side, 0, 200);
+            x.company(1 - side, 1, 1);
+            x.company(1 - side, 12, 1);
+            x.begin();
+            checks.due("around one man", 4, x.march(0, 2));
+            checks.due("not to where he is", -1, x.march(0, 1));
+            x.order(1, 5, 0);
+            x.pass(1);
+            checks.due("he is gone", 0, x.ofCompany(1, 2));
+            checks.due("no more around him", 2, x.march(0, 2));
+            checks.due("to where he fell", 1, x.march(0, 1));
+        }
+    }
+
     private static void mendWall() {
         Siegelines x = Fields.plain(5, 5);
         x.ground(23, 0, 0, 1, 48);
@@ -401,6 +454,33 @@ final class CompaniesTest {
         y.pass(1);
         checks.due("80 by four companies, of height 9", 1, y.ofSquare(18, 2));
         checks.due("9 at most", 9, y.ofSquare(18, 0));
+    }
+
+    /** A breach that has toil of 79, by companies of 150 and 10, is a wall by 1 more; a wall of 58 is 60 in two hours. */
+    private static void mendByLittle() {
+        Siegelines x = Fields.plain(5, 5);
+        x.ground(18, 0, 0, 6, 0);
+        x.ground(22, 0, 0, 1, 58);
+        x.company(0, 0, 10);
+        x.company(1, 17, 150);
+        x.company(1, 23, 19);
+        x.company(1, 21, 39);
+        x.begin();
+        x.order(1, 6, 18);
+        x.pass(5);
+        x.order(1, 0, 0);
+        x.order(2, 6, 18);
+        x.pass(4);
+        checks.due("toil of 75 and 4", 79, x.ofSquare(18, 4));
+        checks.due("too little", 6, x.ofSquare(18, 2));
+        x.pass(1);
+        checks.due("80 are enough", 1, x.ofSquare(18, 2));
+        x.order(3, 6, 22);
+        int[] firm = {59, 60, 60};
+        for (int want : firm) {
+            x.pass(1);
+            checks.due("39 men by 1", want, x.ofSquare(22, 3));
+        }
     }
 
     private static void mendNothing() {

@@ -12,11 +12,13 @@ final class GunsTest {
         wallThatFalls();
         lossesByWork();
         raked();
+        rakedInLine();
         underFire();
         mortar();
         scarcePowder();
         gunsAtGuns();
         targets();
+        evenTargets();
         targetsOfMortar();
         wrong();
         checks.end();
@@ -61,6 +63,13 @@ final class GunsTest {
         checks.fails("a wall between hides", x.sees(18, 22));
         checks.fails("and backwards", x.sees(22, 18));
         checks.holds("from the square ahead of it", x.sees(20, 22));
+        Siegelines flat = Fields.plain(9, 5);
+        flat.ground(19, 1, 0, 0, 0);
+        checks.fails("2 * 2 is above 2 + 1", flat.sees(18, 20));
+        checks.fails("2 * 3 is above 2 * 2 + 1", flat.sees(18, 21));
+        checks.fails("2 * 3 is above 2 + 2 * 1, farther from who sees", flat.sees(21, 18));
+        flat.ground(18, 1, 0, 0, 0);
+        checks.holds("2 * 2 is not above 4 + 1", flat.sees(18, 20));
         checks.holds("0 * 2 is not above 2 - 2, into a trench", intoTrench(0, 0));
         checks.fails("2 * 2 is above 2 - 2", intoTrench(0, 1));
         checks.fails("2 * 2 is above 4 - 2", intoTrench(1, 1));
@@ -145,6 +154,7 @@ final class GunsTest {
             x.pass(1);
             checks.due("how firm", firm[hour], x.ofSquare(12, 3));
             checks.due("hits", hits[hour], x.ofGun(1, 4));
+            checks.due("ready, also with 9", 0, x.ofGun(1, 5));
             checks.due("men on the wall lose the half of the shots", men[hour], x.ofCompany(1, 2));
             checks.due("powder", powder[hour], x.ofSide(0, 0));
             checks.due("heat", hour + 1, x.ofGun(0, 3));
@@ -263,6 +273,33 @@ final class GunsTest {
         checks.due("a mortar does not rake", 96, z.ofCompany(0, 2));
         Siegelines w = trenches(1, 11);
         checks.due("a trench ahead is not one behind", 0, w.underFire(12, 1, 1));
+    }
+
+    /** Whether a gun on a height at a square rakes a trench at the second one; more trenches are told. */
+    private static int rakes(int from, int trench, int behind) {
+        Siegelines x = Fields.plain(5, 5);
+        x.camp(19, 23);
+        x.ground(trench, 0, 0, 5, 0);
+        x.ground(behind, 0, 0, 5, 0);
+        x.gun(1, from, 1);
+        return x.underFire(trench, 1, 1);
+    }
+
+    private static void rakedInLine() {
+        int[][] lines = {{0, 1, 2}, {0, 5, 10}, {12, 7, 2}, {12, 11, 10}, {12, 17, 22}, {0, 6, 12}, {24, 18, 12},
+            {4, 8, 12}, {20, 16, 12}, {0, 7, 13}, {0, 11, 17}, {12, 18, 24}, {12, 6, 0}, {24, 17, 16}, {14, 12, 11}};
+        for (int[] line : lines) {
+            checks.due("raked from " + line[0] + " at " + line[1], 1, rakes(line[0], line[1], line[2]));
+            for (int other = 0; other < 25; other++) {
+                if (other != line[0] && other != line[1] && other != line[2] && other != 19 && other != 23) {
+                    checks.due("not by a trench at " + other, 0, rakes(line[0], line[1], other));
+                }
+            }
+        }
+        int[][] edges = {{12, 10, 9}, {12, 14, 15}, {12, 2, 22}, {12, 22, 2}, {11, 10, 14}, {12, 4, 0}};
+        for (int[] edge : edges) {
+            checks.due("nothing is behind the edge at " + edge[1], 0, rakes(edge[0], edge[1], edge[2]));
+        }
     }
 
     private static void underFire() {
@@ -400,6 +437,26 @@ final class GunsTest {
         y.ground(21, 0, 0, 1, 9);
         checks.due("walls do not count for the garrison", -1, y.target(1));
         checks.due("men below 10 do not", -1, y.target(0));
+    }
+
+    private static void evenTargets() {
+        Siegelines x = Fields.plain(9, 5);
+        x.camp(44, 40);
+        x.gun(0, 9, 2);
+        x.ground(12, 0, 0, 1, 9);
+        checks.due("a wall by a calibre of 2", 12, x.target(0));
+        x.gun(1, 11, 1);
+        checks.due("a gun has as much", 11, x.target(0));
+        x.company(1, 10, 199);
+        checks.due("199 men have less", 11, x.target(0));
+        x.company(1, 10, 1);
+        checks.due("200 have as much", 10, x.target(0));
+        x.gun(1, 0, 1);
+        checks.due("at 0", 0, x.target(0));
+        x.company(1, 12, 9);
+        checks.due("9 men more are no point", 0, x.target(0));
+        x.company(1, 12, 1);
+        checks.due("10 are", 12, x.target(0));
     }
 
     private static void targetsOfMortar() {

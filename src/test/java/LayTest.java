@@ -105,6 +105,15 @@ final class LayTest {
         checks.due("gate keeps its town", 3, x.ofSquare(78, 2));
         checks.due("the last square is nobody's", -1, x.ofSquare(143, 7));
         checks.due("camp is 0", 0, x.ofSquare(0, 7));
+        int[] besides = {77, 79, 66, 90};
+        for (int square : besides) {
+            checks.due("a breach beside gate", 1, x.ground(square, 3, 0, 6, 0));
+            x.ground(square, 3, 0, 3, 0);
+        }
+        checks.refuses("no breach on gate", Checks.ARGUMENT, x, () -> x.ground(78, 3, 0, 6, 0));
+        x.muster(3);
+        checks.due("besiegers muster on camp", 0, x.ofCompany(3, 1));
+        checks.due("the garrison musters on gate", 78, x.ofCompany(4, 1));
     }
 
     private static void layCutForts() {

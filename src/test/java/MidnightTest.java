@@ -10,6 +10,7 @@ final class MidnightTest {
         sickInMarsh();
         fires();
         deserters();
+        fewDeserters();
         supply();
         breaches();
         lifted();
@@ -39,6 +40,9 @@ final class MidnightTest {
         checks.due("149 / 10 and 59 / 20", 84, x.ofSide(1, 1));
         checks.due("no hunger", 0, x.ofSide(0, 4) + x.ofSide(1, 4));
         checks.due("morale stays", 120, x.ofSide(0, 3) + x.ofSide(1, 3));
+        Siegelines z = camps(100, 100, 60);
+        z.pass(24);
+        checks.due("149 / 10 and 60 / 20", 83, z.ofSide(1, 1));
         Siegelines y = camps(21, 16, 59);
         y.pass(24);
         checks.due("just enough", 0, y.ofSide(0, 4) + y.ofSide(1, 4));
@@ -188,6 +192,24 @@ final class MidnightTest {
         checks.due("33: 187 less 3", 184, y.ofCompany(0, 2));
         checks.due("34: 187 less 2", 185, y.ofCompany(1, 2));
         checks.due("losses of the besiegers", 3, y.ofSide(0, 9));
+    }
+
+    private static void fewDeserters() {
+        int[][] few = {{40, 20, 2}, {39, 20, 1}, {20, 20, 1}, {19, 20, 0}, {21, 21, 0}, {22, 21, 1}, {49, 39, 0},
+            {10, 1, 0}, {11, 1, 1}};
+        for (int[] f : few) {
+            for (int side = 0; side < 2; side++) {
+                Siegelines x = Fields.plain(5, 5);
+                x.stores(side, 0, 999, 0, f[1]);
+                x.stores(1 - side, 0, 999, 0, 60);
+                x.company(side, side * 24, f[0]);
+                x.company(1 - side, 24 - side * 24, 49);
+                x.begin();
+                x.pass(24);
+                checks.due("deserters of " + f[0] + " with morale " + f[1], f[2], x.ofSide(side, 9));
+                checks.due("none of the other", 0, x.ofSide(1 - side, 9));
+            }
+        }
     }
 
     private static void supply() {

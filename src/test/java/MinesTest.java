@@ -10,6 +10,7 @@ final class MinesTest {
         stopped();
         heardByCompanies();
         heardByMines();
+        heardByFew();
         charge();
         chargeWrong();
         blowCamouflet();
@@ -20,6 +21,8 @@ final class MinesTest {
         blowMen();
         crush();
         crushByBesieged();
+        crushNearby();
+        blowEdges();
         blowEnds();
         blowWrong();
         checks.end();
@@ -263,6 +266,44 @@ final class MinesTest {
         checks.refuses("ofMine of -1", Checks.INDEX, x, () -> x.ofMine(-1, 0));
         checks.refuses("ofMine of 9", Checks.ARGUMENT, x, () -> x.ofMine(0, 9));
         checks.refuses("ofMine of what -1", Checks.ARGUMENT, x, () -> x.ofMine(0, -1));
+    }
+
+    /** A mine of one square is not heard, also by one beside it; one man hears, but not when he is gone. */
+    private static void heardByFew() {
+        Siegelines x = Fields.plain(9, 5);
+        x.ground(18, 0, 0, 5, 0);
+        x.company(0, 18, 200);
+        x.company(1, 19, 9);
+        x.company(1, 12, 1);
+        x.company(1, 44, 9);
+        x.begin();
+        x.mine(0, 1);
+        x.order(1, 2, 0);
+        x.pass(1);
+        checks.due("one square", 0, x.ofMine(0, 8));
+        x.order(1, 0, 0);
+        x.pass(7);
+        checks.due("all are at rest", 0, x.ofMine(0, 8));
+        x.order(2, 2, 0);
+        checks.due("the head", 20, x.ofMine(0, 2));
+        checks.due("one man hears it", 1, x.ofMine(0, 8));
+        Siegelines y = Fields.plain(9, 5);
+        y.stores(0, 99, 999, 9, 60);
+        y.ground(18, 0, 0, 5, 0);
+        y.gun(0, 9, 1);
+        y.company(0, 18, 200);
+        y.company(1, 12, 1);
+        y.company(1, 44, 9);
+        y.begin();
+        y.mine(0, 1);
+        y.pass(8);
+        y.order(1, 2, 0);
+        checks.due("heard", 1, y.ofMine(0, 8));
+        y.aim(0, 12);
+        y.pass(1);
+        checks.due("he is gone, with his order", 2, y.ofCompany(1, 2) + y.ofCompany(1, 4));
+        checks.due("not heard any more", 0, y.ofMine(0, 8));
+        checks.due("it is dug on", 0, y.ofMine(0, 6));
     }
 
     private static void charge() {
@@ -536,6 +577,69 @@ final class MinesTest {
         checks.due("powder of the garrison", 2, x.ofSide(1, 8));
         checks.due("no morale for that", 60, x.ofSide(1, 3));
         checks.due("nor of the besiegers", 60, x.ofSide(0, 3));
+    }
+
+    /** A mine of the garrison at 22, one of the besiegers so many squares beside it, and two more of the garrison there. */
+    private static Siegelines neighbours(int apart) {
+        Siegelines x = Fields.plain(9, 5);
+        x.ground(22, 0, 0, 4, 0);
+        x.ground(22 - apart, 0, 0, 5, 0);
+        x.stores(1, 200, 999, 9, 60);
+        x.company(1, 22, 9);
+        x.company(0, 22 - apart, 9);
+        x.begin();
+        x.mine(0, 0);
+        x.mine(1, 0);
+        x.mine(0, 1);
+        x.mine(0, 2);
+        return x;
+    }
+
+    private static void crushNearby() {
+        int[] charges = {1, 4, 5, 7, 8, 23, 24, 60};
+        int[] reach = {1, 1, 0, 0, 1, 1, 2, 2};
+        for (int i = 0; i < charges.length; i++) {
+            for (int apart = 1; apart <= 3; apart++) {
+                Siegelines x = neighbours(apart);
+                x.charge(0, charges[i]);
+                x.blow(0);
+                String name = "a mine " + apart + " far, by " + charges[i];
+                checks.due(name, apart <= reach[i] ? 3 : 0, x.ofMine(1, 6));
+                checks.due("own ones stay", 0, x.ofMine(2, 6) + x.ofMine(3, 6));
+                checks.due("morale", apart <= reach[i] ? 57 : 60, x.ofSide(0, 3));
+            }
+        }
+        Siegelines high = neighbours(1);
+        high.charge(0, 7);
+        high.blow(0);
+        checks.due("without a charge nothing is spent by it", 0, high.ofSide(0, 8));
+    }
+
+    private static void blowEdges() {
+        Siegelines x = Fields.plain(9, 5);
+        x.ground(1, 1, 0, 5, 0);
+        x.stores(0, 200, 999, 9, 60);
+        x.company(0, 1, 9);
+        x.company(0, 0, 30);
+        x.company(1, 44, 9);
+        x.begin();
+        x.mine(0, 2);
+        x.charge(0, 8);
+        checks.due("a third of 9 and of 30, at 0", 13, x.blow(0));
+        checks.due("those at 0", 20, x.ofCompany(1, 2));
+        checks.due("height 1 less is 0", 0, x.ofSquare(1, 0));
+        Siegelines y = Fields.plain(9, 5);
+        y.ground(43, 5, 0, 3, 0);
+        y.stores(1, 200, 999, 9, 60);
+        y.company(0, 0, 9);
+        y.company(1, 43, 9);
+        y.company(1, 44, 30);
+        y.begin();
+        y.mine(1, 0);
+        y.charge(0, 24);
+        checks.due("also at the last square", 13, y.blow(0));
+        checks.due("a town stays", 3, y.ofSquare(43, 2));
+        checks.due("with its height", 5, y.ofSquare(43, 0));
     }
 
     private static void blowEnds() {

@@ -9,6 +9,8 @@ final class OrdersTest {
         haul();
         haulWrong();
         right();
+        rightedGunIsCool();
+        rightByTired();
         letter();
         expel();
         parley();
@@ -206,6 +208,54 @@ final class OrdersTest {
         checks.fails("both companies were fresh too long", true);
     }
 
+    /** A gun of the garrison at 12, that three of the besiegers at 9 can dismount in an hour; a company of 200 by it. */
+    private static Siegelines outgunned() {
+        Siegelines x = Fields.plain(9, 5);
+        x.stores(0, 500, 500, 0, 60);
+        x.stores(1, 500, 500, 0, 60);
+        x.gun(1, 12, 1);
+        for (int i = 0; i < 3; i++) {
+            x.gun(0, 9, 1);
+        }
+        x.company(0, 0, 50);
+        x.company(1, 12, 200);
+        x.begin();
+        return x;
+    }
+
+    private static void aimAll(Siegelines x, int square) {
+        for (int gun = 1; gun <= 3; gun++) {
+            x.aim(gun, square);
+        }
+    }
+
+    private static void rightedGunIsCool() {
+        Siegelines x = outgunned();
+        aimAll(x, 12);
+        x.aim(0, 13);
+        x.pass(1);
+        checks.due("it fired first", 1, x.ofGun(0, 3));
+        checks.due("then it was dismounted", 1, x.ofGun(0, 5));
+        checks.due("set right", 4, x.right(0));
+        checks.due("with heat of 0", 0, x.ofGun(0, 3));
+    }
+
+    private static void rightByTired() {
+        for (int tired = 7; tired <= 8; tired++) {
+            Siegelines x = outgunned();
+            x.order(1, 3, 0);
+            x.pass(tired - 1);
+            aimAll(x, 12);
+            x.pass(1);
+            checks.due("tired", tired, x.ofCompany(1, 3));
+            if (tired == 7) {
+                checks.due("7 is below 8", 11, x.right(0));
+            } else {
+                checks.refuses("8 is not", Checks.STATE, x, () -> x.right(0));
+            }
+        }
+    }
+
     private static void letter() {
         Siegelines x = Fields.begun(5, 5);
         checks.due("at hour 0", 1, x.letter());
@@ -288,6 +338,8 @@ final class OrdersTest {
         x.pass(48);
         checks.due("hunger of 4 days", 4, x.ofSide(1, 4));
         checks.fails("0 and 100 and 30 (at most) less 20", x.parley());
+        checks.holds("100 less 10 and 30, of 40", afterFourHungryDays(34).parley());
+        checks.fails("119 with one of morale more", afterFourHungryDays(35).parley());
         Siegelines y = Fields.plain(9, 5);
         y.stores(1, 0, 0, 0, 14);
         y.company(0, 0, 200);
@@ -311,6 +363,17 @@ final class OrdersTest {
         w.pass(1);
         checks.due("depth in the town", 5, w.ofSiege(3));
         checks.due("honours in the town", 0, honoursAfter(w));
+    }
+
+    private static Siegelines afterFourHungryDays(int morale) {
+        Siegelines x = Fields.plain(9, 5);
+        x.stores(1, 0, 0, 0, morale);
+        x.company(0, 0, 200);
+        x.company(1, 44, 200);
+        x.begin();
+        x.pass(48);
+        x.pass(48);
+        return x;
     }
 
     /** Parleys each day until the garrison gives up. */
@@ -353,8 +416,9 @@ final class OrdersTest {
     /** In the setting no order is taken, but wrong arguments come first. */
     private static void ahead() {
         Siegelines x = Fields.plain(5, 5);
+        x.ground(1, 0, 0, 5, 0);
         x.gun(0, 0, 1);
-        x.company(0, 0, 100);
+        x.company(0, 1, 100);
         x.company(1, 24, 100);
         refusesAll(x);
     }
@@ -363,13 +427,16 @@ final class OrdersTest {
     private static void behind() {
         Siegelines x = Fields.plain(5, 5);
         x.ground(12, 0, 0, 6, 0);
+        x.ground(1, 0, 0, 5, 0);
         x.stores(1, 0, 0, 0, 1);
+        x.town(9, 0, 10);
         x.gun(0, 0, 1);
-        x.company(0, 0, 100);
+        x.company(0, 1, 100);
         x.company(1, 24, 100);
         x.begin();
         checks.holds("it gives up", x.parley());
         refusesAll(x);
+        checks.refuses("expel one", Checks.STATE, x, () -> x.expel(9));
         checks.refuses("begin again", Checks.STATE, x, () -> x.begin());
         checks.refuses("lay again", Checks.STATE, x, () -> x.lay(5, 5, 0));
         checks.refuses("no forecast", Checks.STATE, x, () -> x.forecast(1, 0));
@@ -385,7 +452,7 @@ final class OrdersTest {
         checks.refuses("charge", Checks.INDEX, x, () -> x.charge(0, 1));
         checks.refuses("blow", Checks.INDEX, x, () -> x.blow(0));
         checks.refuses("letter", Checks.STATE, x, () -> x.letter());
-        checks.refuses("expel", Checks.ARGUMENT, x, () -> x.expel(1));
+        checks.refuses("expel", Checks.ARGUMENT, x, () -> x.expel(10));
         checks.refuses("parley", Checks.STATE, x, () -> x.parley() ? 1 : 0);
         checks.refuses("pass", Checks.STATE, x, () -> x.pass(1));
         checks.refuses("pass of no hour", Checks.ARGUMENT, x, () -> x.pass(0));

@@ -14,6 +14,7 @@ final class ReliefTest {
         parleyWithRelief();
         depths();
         depthOfTrench();
+        depthInTown();
         noGarrison();
         noBesiegers();
         stormedFirst();
@@ -225,6 +226,12 @@ final class ReliefTest {
         Siegelines y = relieved(59);
         y.pass(24);
         checks.fails("80 and 48 and 10 less 20 is 118", y.parley());
+        Siegelines exact = relieved(57);
+        exact.pass(24);
+        checks.holds("80 and 50 and 10 less 20 is 120", exact.parley());
+        Siegelines less = relieved(58);
+        less.pass(24);
+        checks.fails("119", less.parley());
         Siegelines z = relieved(44);
         z.pass(48);
         checks.due("44 less 14 and 20", 50, z.ofSide(1, 3));
@@ -295,6 +302,29 @@ final class ReliefTest {
         checks.due("a trench beside a ditch", 2, x.ofSiege(3));
         x.ground(35, 0, 0, 6, 0);
         checks.due("the greatest one holds", 3, x.ofSiege(3));
+    }
+
+    private static void depthInTown() {
+        Siegelines x = Fields.plain(9, 5);
+        x.ground(12, 0, 0, 3, 0);
+        x.stores(1, 99, 999, 9, 60);
+        x.gun(1, 14, 1);
+        x.company(0, 11, 1);
+        x.company(0, 0, 9);
+        x.company(1, 44, 9);
+        x.begin();
+        x.order(0, 5, 12);
+        x.pass(1);
+        checks.due("one man in the town", 5, x.ofSiege(3));
+        x.aim(0, 12);
+        x.pass(1);
+        checks.due("he is gone, there", 12, x.ofCompany(0, 1) + x.ofCompany(0, 2));
+        checks.due("and does not count", 0, x.ofSiege(3));
+        Siegelines y = Fields.plain(9, 5);
+        y.ground(12, 0, 0, 3, 0);
+        y.company(0, 0, 9);
+        y.company(1, 12, 9);
+        checks.due("the garrison in its town does not count", 0, y.ofSiege(3));
     }
 
     private static void noGarrison() {

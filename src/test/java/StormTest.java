@@ -13,6 +13,9 @@ final class StormTest {
         winWithRefuge();
         winOverMany();
         winOverOneMan();
+        refugeThatIsHeld();
+        quarters();
+        eighths();
         lose();
         loseLastMan();
         even();
@@ -262,6 +265,76 @@ final class StormTest {
         checks.due("and as he was", 2, x.ofCompany(1, 4));
         checks.due("companies that are left", 1, x.ofSide(1, 6));
         checks.due("only the besiegers are seen", 0, x.row(2).indexOf("..o") < 0 ? 1 : 0);
+    }
+
+    /** A cover at 7 that besiegers stormed is no refuge from 12; a cover at 13 is, or none. */
+    private static void refugeThatIsHeld() {
+        for (int work = 0; work <= 4; work += 4) {
+            Siegelines x = Fields.plain(5, 5);
+            x.ground(7, 0, 0, 4, 0);
+            x.ground(13, 0, 0, work, 0);
+            x.company(0, 11, 200);
+            x.company(0, 2, 1);
+            x.company(1, 12, 40);
+            x.company(1, 13, 9);
+            x.begin();
+            x.order(1, 5, 7);
+            x.pass(1);
+            checks.due("one man is in the cover", 7, x.ofCompany(1, 1));
+            x.order(0, 5, 12);
+            x.pass(1);
+            checks.due("not there", work == 4 ? 13 : 24, x.ofCompany(2, 1));
+            checks.due("men", work == 4 ? 30 : 15, x.ofCompany(2, 2));
+        }
+    }
+
+    /** Who loses has a quarter less, 1 at least. */
+    private static void quarters() {
+        int[] men = {1, 2, 3, 4, 7, 8, 11, 12, 16};
+        int[] left = {0, 1, 2, 3, 6, 6, 9, 9, 12};
+        for (int i = 0; i < men.length; i++) {
+            Siegelines x = Fields.plain(5, 5);
+            x.ground(7, 0, 0, 4, 0);
+            x.company(0, 11, 200);
+            x.company(1, 12, men[i]);
+            x.company(1, 24, 9);
+            x.begin();
+            x.order(0, 5, 12);
+            x.pass(1);
+            checks.due("left of " + men[i] + " that were stormed", left[i], x.ofCompany(1, 2));
+            Siegelines y = Fields.plain(5, 5);
+            y.company(0, 11, men[i]);
+            y.company(0, 0, 9);
+            y.company(1, 12, 200);
+            y.begin();
+            y.order(0, 5, 12);
+            y.pass(1);
+            checks.due("left of " + men[i] + " that stormed", left[i], y.ofCompany(0, 2));
+        }
+    }
+
+    /** Who wins has an eighth less. */
+    private static void eighths() {
+        int[] men = {17, 23, 24, 31, 160};
+        int[] left = {15, 21, 21, 28, 140};
+        for (int i = 0; i < men.length; i++) {
+            Siegelines x = Fields.plain(5, 5);
+            x.company(0, 11, men[i]);
+            x.company(1, 12, 2);
+            x.company(1, 24, 9);
+            x.begin();
+            x.order(0, 5, 12);
+            x.pass(1);
+            checks.due("left of " + men[i] + " that stormed and won", left[i], x.ofCompany(0, 2));
+            Siegelines y = Fields.plain(5, 5);
+            y.company(0, 11, 2);
+            y.company(0, 0, 9);
+            y.company(1, 12, men[i]);
+            y.begin();
+            y.order(0, 5, 12);
+            y.pass(1);
+            checks.due("left of " + men[i] + " that were stormed and won", left[i], y.ofCompany(2, 2));
+        }
     }
 
     private static void lose() {
