@@ -1451,9 +1451,6 @@ public final class Siegelines {
         }
 
         boolean askWhetherOver() {
-            if (phase != GOES_ON) {
-                return phase == OVER;
-            }
             if (isHeldBy(BESIEGERS, ground.gate)) {
                 people /= 2;
                 end(0);

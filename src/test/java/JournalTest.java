@@ -7,6 +7,11 @@ final class JournalTest {
         minesBehindCompanies();
         forecastTells();
         forecastOver();
+        forecastOfGuns();
+        forecastOfStorm();
+        forecastOfLetters();
+        forecastOfRelief();
+        forecastOfSick();
         forecastChangesNothing();
         forecastWrong();
         sound();
@@ -132,6 +137,116 @@ final class JournalTest {
         checks.due("no honours", -1, lifted.forecast(23, 1));
         checks.due("lifted in the 24th", 23, lifted.forecast(24, 0));
         checks.due("without honours", -1, lifted.forecast(24, 1));
+    }
+
+    /** All that a forecast tells is what comes, if nothing is told in between. */
+    private static void foretells(String name, Siegelines x, int hours) {
+        int[] told = new int[5];
+        for (int what = 0; what < 5; what++) {
+            told[what] = x.forecast(hours, what);
+        }
+        x.pass(hours);
+        boolean isOver = x.ofSiege(1) == 2;
+        int[] come = {isOver ? x.ofSiege(0) : -1, isOver ? x.ofSiege(2) : -1, x.ofSide(0, 5), x.ofSide(1, 5), x.ofSiege(4)};
+        for (int what = 0; what < 5; what++) {
+            checks.due(name + ", forecast of " + what, come[what], told[what]);
+        }
+    }
+
+    /** A gun of the garrison with 9 hits has no shot more, as one comes ahead of it; nor has it when it is dismounted. */
+    private static void forecastOfGuns() {
+        for (int hours = 3; hours <= 4; hours++) {
+            Siegelines x = Fields.plain(9, 5);
+            x.stores(0, 99, 999, 9, 60);
+            x.stores(1, 99, 999, 9, 60);
+            x.gun(0, 9, 1);
+            x.gun(1, 12, 1);
+            x.company(0, 0, 200);
+            x.company(1, 44, 9);
+            x.begin();
+            x.aim(0, 12);
+            x.pass(hours);
+            checks.due("hits", hours == 3 ? 9 : 10, x.ofGun(1, 4));
+            x.aim(1, 0);
+            checks.due("no men will be lost", 200, x.forecast(1, 2));
+            foretells("a gun with hits", x, 1);
+        }
+    }
+
+    private static void forecastOfStorm() {
+        Siegelines x = Fields.plain(5, 5);
+        x.company(0, 11, 100);
+        x.company(1, 12, 50);
+        x.company(1, 24, 9);
+        x.begin();
+        x.order(0, 3, 0);
+        x.pass(9);
+        x.order(0, 5, 12);
+        checks.due("tired of 9 it will lose a quarter", 75, x.forecast(1, 2));
+        foretells("a storm of tired ones", x, 1);
+    }
+
+    /** Besiegers with so much morale, one of them at guard or none, and a letter that is sent at once. */
+    private static Siegelines lettered(int morale, int days, boolean isGuarded) {
+        Siegelines x = Fields.plain(5, 5);
+        x.stores(0, 0, 999, 0, morale);
+        x.stores(1, 0, 999, 0, 60);
+        x.town(0, 0, days);
+        x.company(0, 0, 49);
+        x.company(1, 24, 49);
+        x.begin();
+        x.order(0, isGuarded ? 2 : 0, 0);
+        x.letter();
+        return x;
+    }
+
+    private static void forecastOfLetters() {
+        Siegelines x = lettered(15, 1, false);
+        checks.due("the relief comes with the second midnight", 47, x.forecast(48, 0));
+        checks.due("not ahead of it", -1, x.forecast(47, 0));
+        foretells("a letter that is out", x, 48);
+        Siegelines y = lettered(15, 2, false);
+        y.pass(24);
+        checks.due("two days on", 71, y.forecast(48, 0));
+        checks.due("lifted", -1, y.forecast(48, 1));
+        foretells("the relief on its way", y, 48);
+        Siegelines z = lettered(15, 1, true);
+        z.pass(24);
+        checks.due("through with its second midnight", 71, z.forecast(48, 0));
+        foretells("a letter that has a day", z, 48);
+    }
+
+    private static void forecastOfRelief() {
+        Siegelines x = lettered(30, 1, false);
+        x.pass(48);
+        checks.due("there", 1, x.ofSiege(9));
+        checks.due("it does not come twice", -1, x.forecast(24, 0));
+        foretells("the relief there", x, 24);
+        Siegelines y = Fields.plain(5, 5);
+        y.stores(1, 0, 999, 0, 60);
+        y.town(0, 50, 9);
+        y.company(0, 0, 200);
+        y.company(1, 24, 49);
+        y.begin();
+        checks.due("8 are sick hungry, then 3, fed by supply", 189, y.forecast(48, 2));
+        foretells("supply", y, 48);
+    }
+
+    private static void forecastOfSick() {
+        Siegelines x = Fields.plain(5, 5);
+        x.ground(4, 0, 0, 3, 0);
+        x.stores(0, 999, 999, 9, 60);
+        x.stores(1, 999, 999, 9, 60);
+        x.gun(0, 0, 3);
+        x.company(0, 0, 150);
+        x.company(1, 24, 150);
+        x.begin();
+        x.pass(9);
+        x.aim(0, 4);
+        x.pass(14);
+        checks.due("fires ahead of midnight", 20, x.ofSiege(6));
+        checks.due("one more makes more sick", 144, x.forecast(1, 3));
+        foretells("fires", x, 1);
     }
 
     private static void forecastChangesNothing() {

@@ -434,6 +434,18 @@ final class MinesTest {
             checks.due("what is beside the head stays", 5, x.ofSquare(20, 2));
             checks.due("and what has no work", 0, x.ofSquare(22, 2) + x.ofSquare(12, 2));
         }
+        Siegelines firm = Fields.plain(9, 5);
+        firm.ground(20, 4, 0, 1, 31);
+        firm.stores(1, 200, 999, 9, 60);
+        firm.company(0, 0, 9);
+        firm.company(1, 20, 9);
+        firm.begin();
+        firm.mine(1, 1);
+        firm.charge(0, 9);
+        firm.blow(0);
+        checks.due("a wall on the head that does not fall", 1, firm.ofSquare(20, 2));
+        checks.due("how firm", 1, firm.ofSquare(20, 3));
+        checks.due("with its height", 4, firm.ofSquare(20, 0));
         Siegelines camp = Fields.plain(9, 5);
         camp.ground(1, 0, 0, 5, 0);
         camp.stores(0, 200, 999, 9, 60);
@@ -584,6 +596,7 @@ final class MinesTest {
         Siegelines x = Fields.plain(9, 5);
         x.ground(22, 0, 0, 4, 0);
         x.ground(22 - apart, 0, 0, 5, 0);
+        x.stores(0, 200, 999, 9, 60);
         x.stores(1, 200, 999, 9, 60);
         x.company(1, 22, 9);
         x.company(0, 22 - apart, 9);
@@ -609,10 +622,17 @@ final class MinesTest {
                 checks.due("morale", apart <= reach[i] ? 57 : 60, x.ofSide(0, 3));
             }
         }
-        Siegelines high = neighbours(1);
-        high.charge(0, 7);
-        high.blow(0);
-        checks.due("without a charge nothing is spent by it", 0, high.ofSide(0, 8));
+        Siegelines two = neighbours(1);
+        two.mine(1, 2);
+        two.charge(1, 7);
+        two.charge(4, 6);
+        two.charge(0, 8);
+        two.blow(0);
+        checks.due("both are crushed", 6, two.ofMine(1, 6) + two.ofMine(4, 6));
+        checks.due("both charges are spent", 13, two.ofSide(0, 8));
+        checks.due("powder that is left", 187, two.ofSide(0, 0));
+        checks.due("3 for each", 54, two.ofSide(0, 3));
+        checks.holds("sound", two.isSound());
     }
 
     private static void blowEdges() {

@@ -101,6 +101,20 @@ final class ReliefTest {
         y.letter();
         y.pass(24);
         checks.due("guards of the garrison do not count", 1, y.ofSiege(7));
+        Siegelines fallen = Fields.plain(5, 5);
+        fallen.stores(0, 0, 999, 0, 60);
+        fallen.stores(1, 99, 999, 0, 60);
+        fallen.gun(1, 4, 1);
+        fallen.company(0, 2, 1);
+        fallen.company(0, 0, 9);
+        fallen.company(1, 24, 9);
+        fallen.begin();
+        fallen.order(0, 2, 0);
+        fallen.aim(0, 2);
+        fallen.letter();
+        fallen.pass(24);
+        checks.due("one that is gone stays at guard", 2, fallen.ofCompany(0, 2) + fallen.ofCompany(0, 4));
+        checks.due("but does not count", 1, fallen.ofSiege(7));
         Siegelines z = guarded(0, 9);
         z.pass(11);
         z.order(0, 5, 24);
@@ -302,6 +316,18 @@ final class ReliefTest {
         checks.due("a trench beside a ditch", 2, x.ofSiege(3));
         x.ground(35, 0, 0, 6, 0);
         checks.due("the greatest one holds", 3, x.ofSiege(3));
+        Siegelines corner = Fields.plain(9, 5);
+        corner.camp(20, 44);
+        corner.ground(0, 0, 0, 5, 0);
+        corner.ground(3, 0, 0, 1, 9);
+        checks.due("a trench at 0", 1, corner.ofSiege(3));
+        corner.ground(9, 0, 0, 2, 0);
+        checks.due("beside a ditch", 2, corner.ofSiege(3));
+        Siegelines other = Fields.plain(9, 5);
+        other.camp(20, 44);
+        other.ground(0, 0, 0, 1, 9);
+        other.ground(30, 0, 0, 5, 0);
+        checks.due("a wall at 0", 1, other.ofSiege(3));
     }
 
     private static void depthInTown() {

@@ -61,6 +61,8 @@ final class SettingTest {
         }
         checks.refuses("ground below a gun", Checks.STATE, x, () -> x.ground(3, 0, 0, 0, 0));
         checks.refuses("ground below a company", Checks.STATE, x, () -> x.ground(4, 0, 0, 0, 0));
+        x.company(0, 8, 9);
+        checks.refuses("ground below besiegers", Checks.STATE, x, () -> x.ground(8, 0, 0, 0, 0));
         Siegelines begun = Fields.begun(5, 5);
         checks.refuses("ground in the siege", Checks.STATE, begun, () -> begun.ground(6, 0, 0, 0, 0));
         checks.refuses("wrong ground in the siege", Checks.ARGUMENT, begun, () -> begun.ground(6, 0, 0, 9, 0));
