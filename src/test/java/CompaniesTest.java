@@ -261,6 +261,17 @@ final class CompaniesTest {
         checks.due("it goes on", 3, x.ofCompany(0, 4));
         x.pass(1);
         checks.due("on camp again", 11, x.ofSide(0, 2));
+        Siegelines town = Fields.plain(5, 5);
+        town.ground(6, 0, 0, 3, 0);
+        town.company(0, 1, 100);
+        town.company(1, 24, 100);
+        town.begin();
+        town.order(0, 5, 6);
+        town.pass(1);
+        town.order(0, 3, 0);
+        town.pass(1);
+        checks.due("besiegers in the town, too", 5, town.ofSide(0, 2));
+        checks.due("for their own side", 0, town.ofSide(1, 2));
     }
 
     private static void marchOn() {
@@ -520,6 +531,15 @@ final class CompaniesTest {
         x.company(1, 19, 1);
         checks.due("but no company of the garrison there", 21, x.sap(1));
         checks.due("none for the garrison", -1, x.sap(2));
+        Siegelines own = Fields.plain(9, 5);
+        own.camp(0, 9);
+        own.ground(19, 3, 0, 0, 0);
+        own.ground(28, 3, 0, 0, 0);
+        own.gun(0, 18, 1);
+        own.company(0, 20, 10);
+        checks.due("a gun of the besiegers sees 19", 1, own.underFire(19, 0, 0));
+        checks.due("and nothing else", 0, own.underFire(11, 0, 0) + own.underFire(21, 0, 0) + own.underFire(29, 0, 0));
+        checks.due("it does not count", 19, own.sap(0));
         Siegelines y = Fields.plain(9, 5);
         y.camp(1, 44);
         y.ground(9, 0, 0, 2, 0);

@@ -14,8 +14,11 @@ final class GunsTest {
         raked();
         rakedInLine();
         underFire();
+        garrisonAtTown();
+        ownCompanies();
         mortar();
         scarcePowder();
+        gunsNotReady();
         gunsAtGuns();
         targets();
         evenTargets();
@@ -362,6 +365,71 @@ final class GunsTest {
         x.pass(1);
         checks.due("nothing was fired", 0, x.ofSide(0, 7));
         checks.due("no powder was spent", 500, x.ofSide(0, 0));
+    }
+
+    /** Guns of the garrison make walls less firm and fires in the town, too. */
+    private static void garrisonAtTown() {
+        Siegelines x = Fields.plain(9, 5);
+        x.ground(12, 0, 0, 3, 0);
+        x.ground(11, 0, 0, 1, 5);
+        x.stores(1, 500, 500, 5, 60);
+        x.gun(1, 9, 3);
+        x.gun(1, 9, 2);
+        x.company(0, 0, 100);
+        x.company(1, 12, 100);
+        x.company(1, 11, 100);
+        x.begin();
+        x.aim(0, 12);
+        x.aim(1, 11);
+        x.pass(1);
+        checks.due("fires", 4, x.ofSiege(6));
+        checks.due("a wall fell", 6, x.ofSquare(11, 2));
+        checks.due("a fall", 1, x.ofSiege(4));
+        checks.due("morale", 52, x.ofSide(1, 3));
+        checks.due("own men are not hit", 0, x.ofSide(1, 9));
+    }
+
+    private static void ownCompanies() {
+        Siegelines x = Fields.plain(9, 5);
+        x.stores(0, 500, 500, 5, 60);
+        x.gun(0, 9, 1);
+        x.company(0, 12, 100);
+        x.company(1, 12, 100);
+        x.begin();
+        x.aim(0, 12);
+        x.pass(1);
+        checks.due("own men there are not hit", 100, x.ofCompany(0, 2));
+        checks.due("those of the other are", 88, x.ofCompany(1, 2));
+    }
+
+    /** Guns that are not ready count neither as seeing nor as raking, nor as targets. */
+    private static void gunsNotReady() {
+        Siegelines x = Fields.plain(9, 5);
+        x.ground(20, 0, 0, 5, 0);
+        x.ground(19, 0, 0, 5, 0);
+        x.stores(0, 500, 500, 5, 60);
+        for (int i = 0; i < 3; i++) {
+            x.gun(0, 12, 1);
+        }
+        x.gun(1, 21, 1);
+        x.gun(0, 21, 1);
+        x.company(0, 20, 100);
+        x.company(1, 44, 100);
+        x.begin();
+        checks.due("a gun sees it", 1, x.underFire(20, 1, 0));
+        checks.due("and rakes it", 1, x.underFire(20, 1, 1));
+        checks.due("it is the target", 21, x.target(0));
+        for (int gun = 0; gun < 3; gun++) {
+            x.aim(gun, 21);
+        }
+        x.pass(1);
+        checks.due("dismounted", 1, x.ofGun(3, 5));
+        checks.due("none sees it", 0, x.underFire(20, 1, 0));
+        checks.due("nor rakes it", 0, x.underFire(20, 1, 1));
+        checks.due("no target", -1, x.target(0));
+        checks.due("no target of its own", -1, x.target(3));
+        checks.due("four of the besiegers see it", 4, x.underFire(20, 0, 0));
+        checks.due("one of their squares rakes it", 1, x.underFire(20, 0, 1));
     }
 
     private static void scarcePowder() {

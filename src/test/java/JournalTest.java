@@ -5,6 +5,7 @@ final class JournalTest {
     public static void main(String[] args) {
         hourInOrder();
         minesBehindCompanies();
+        minesAheadOfMidnight();
         forecastTells();
         forecastOver();
         forecastOfGuns();
@@ -69,6 +70,23 @@ final class JournalTest {
         checks.due("hours on the mouth: 4 and 4 and 4 and 4, stopped", 1, x.ofMine(0, 6));
         checks.due("its squares", 4, x.ofMine(0, 7));
         checks.due("midnight is behind the acts", 50, x.ofCompany(0, 2) + x.ofSide(0, 11));
+    }
+
+    /** What comes ahead of midnight has come when the siege is over by it. */
+    private static void minesAheadOfMidnight() {
+        Siegelines x = Fields.plain(5, 5);
+        x.ground(1, 0, 0, 5, 0);
+        x.stores(0, 0, 0, 9, 6);
+        x.stores(1, 99, 99, 9, 60);
+        x.company(0, 1, 10);
+        x.company(1, 24, 9);
+        x.begin();
+        x.pass(22);
+        x.mine(0, 1);
+        x.pass(2);
+        checks.due("lifted at midnight", 2, x.ofSiege(1));
+        checks.due("the clock stays", 23, x.ofSiege(0));
+        checks.due("the mine had both hours", 2, x.ofMine(0, 5));
     }
 
     private static Siegelines mustered(int seed) {

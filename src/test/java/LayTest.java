@@ -9,6 +9,7 @@ final class LayTest {
         layBySeed();
         layTheFort();
         layCutForts();
+        gateOnTheFort();
         layAgain();
         layWrong();
         checks.end();
@@ -146,6 +147,25 @@ final class LayTest {
             int owner = square == gate || work == 1 || work == 3 ? 1 : -1;
             checks.due(name + " owner of " + square, owner, x.ofSquare(square, 7));
         }
+    }
+
+    /** Where the last square is one of the fort, gate keeps its height and soil, and the ditch beside it stays. */
+    private static void gateOnTheFort() {
+        int[][] maps = {{5, 5, 4}, {6, 6, 3}, {5, 6, 4}, {9, 5, 4}, {10, 5, 0}, {9, 6, 4}, {10, 6, 0}, {6, 9, 4}, {8, 6, 3}};
+        for (int[] map : maps) {
+            for (int seed = 0; seed < 100; seed++) {
+                Siegelines x = new Siegelines();
+                x.lay(map[0], map[1], seed);
+                int gate = map[0] * map[1] - 1;
+                int d = Fields.drawn(seed, 2 * gate + 2)[2 * gate + 1] % 10;
+                checks.due("height of gate", map[2], x.ofSquare(gate, 0));
+                checks.due("soil of gate", d < 6 ? 0 : d < 8 ? 1 : d == 8 ? 2 : 3, x.ofSquare(gate, 1));
+                checks.due("work of gate", 0, x.ofSquare(gate, 2));
+            }
+        }
+        Siegelines small = new Siegelines();
+        checks.due("its wall is gone", 0, small.lay(5, 5, 9));
+        checks.due("above it", "....~", small.row(3));
     }
 
     private static void layAgain() {

@@ -192,6 +192,16 @@ final class MidnightTest {
         checks.due("33: 187 less 3", 184, y.ofCompany(0, 2));
         checks.due("34: 187 less 2", 185, y.ofCompany(1, 2));
         checks.due("losses of the besiegers", 3, y.ofSide(0, 9));
+        for (int side = 0; side < 2; side++) {
+            Siegelines x = Fields.plain(5, 5);
+            x.stores(side, 0, 999, 0, 20);
+            x.company(side, side * 24, 121);
+            x.company(1 - side, 24 - side * 24, 9);
+            x.begin();
+            x.pass(24);
+            checks.due("2 are sick first, then 119 * 20 / 400", 5, x.ofSide(side, 9));
+            checks.due("left", 114, x.ofCompany(0, 2));
+        }
     }
 
     private static void fewDeserters() {

@@ -6,6 +6,7 @@ final class MinesTest {
         beginMines();
         beginWrong();
         advance();
+        strangersOnMouth();
         directions();
         stopped();
         heardByCompanies();
@@ -22,6 +23,9 @@ final class MinesTest {
         crush();
         crushByBesieged();
         crushNearby();
+        camoufletFromHeight();
+        blowKeepsToil();
+        blowAtSpiked();
         blowEdges();
         blowEnds();
         blowWrong();
@@ -132,6 +136,27 @@ final class MinesTest {
         x.order(1, 4, 15);
         x.pass(1);
         checks.due("any order will do", 2, x.ofMine(0, 5));
+    }
+
+    /** The garrison throws in the trench that is the mouth, and stands there: the mine does not go on. */
+    private static void strangersOnMouth() {
+        Siegelines x = field(4);
+        x.company(1, 29, 200);
+        x.begin();
+        x.mine(0, 1);
+        x.order(4, 5, 20);
+        x.pass(1);
+        checks.due("the garrison is on the mouth", 20, x.ofCompany(4, 1));
+        x.pass(9);
+        checks.due("no toil", 0, x.ofMine(0, 5));
+        checks.due("it is dug all the same", 0, x.ofMine(0, 6));
+        Siegelines y = field(4);
+        y.begin();
+        y.mine(0, 1);
+        y.pass(4);
+        y.order(0, 4, 21);
+        y.pass(1);
+        checks.due("a company on the head is not one on the mouth", 0, y.ofMine(0, 5));
     }
 
     private static void directions() {
@@ -635,6 +660,62 @@ final class MinesTest {
         checks.holds("sound", two.isSound());
     }
 
+    private static void camoufletFromHeight() {
+        Siegelines x = Fields.plain(9, 5);
+        x.ground(22, 5, 0, 4, 0);
+        x.ground(21, 5, 0, 5, 0);
+        x.stores(1, 200, 999, 9, 60);
+        x.company(1, 22, 9);
+        x.company(0, 21, 9);
+        x.begin();
+        x.mine(0, 0);
+        x.mine(1, 0);
+        x.charge(0, 4);
+        x.blow(0);
+        checks.due("a camouflet reaches 1 from a height, too", 3, x.ofMine(1, 6));
+    }
+
+    private static void blowKeepsToil() {
+        Siegelines x = Fields.plain(9, 5);
+        x.ground(20, 0, 0, 5, 0);
+        x.stores(0, 200, 999, 9, 60);
+        x.company(0, 20, 100);
+        x.company(1, 44, 9);
+        x.begin();
+        x.mine(0, 1);
+        x.order(0, 1, 21);
+        x.pass(1);
+        x.order(0, 0, 0);
+        x.pass(3);
+        x.charge(0, 9);
+        x.blow(0);
+        checks.due("a crater", 7, x.ofSquare(21, 2));
+        checks.due("toil of the square stays", 10, x.ofSquare(21, 4));
+        x.order(0, 1, 21);
+        x.pass(2);
+        checks.due("the crater is dug to a trench", 5, x.ofSquare(21, 2));
+    }
+
+    private static void blowAtSpiked() {
+        Siegelines x = Fields.plain(9, 5);
+        x.ground(20, 0, 0, 4, 0);
+        x.stores(1, 200, 999, 9, 60);
+        x.gun(1, 20, 1);
+        x.company(0, 19, 100);
+        x.company(1, 20, 9);
+        x.company(1, 21, 200);
+        x.company(1, 44, 9);
+        x.begin();
+        x.mine(1, 0);
+        x.charge(0, 8);
+        x.order(0, 5, 20);
+        x.pass(1);
+        checks.due("spiked", 2, x.ofGun(0, 5));
+        x.blow(0);
+        checks.due("it stays spiked", 2, x.ofGun(0, 5));
+        checks.due("its hits stay", 0, x.ofGun(0, 4));
+    }
+
     private static void blowEdges() {
         Siegelines x = Fields.plain(9, 5);
         x.ground(1, 1, 0, 5, 0);
@@ -673,14 +754,17 @@ final class MinesTest {
         x.begin();
         x.mine(0, 2);
         x.mine(1, 0);
+        x.mine(1, 2);
         x.charge(1, 4);
+        x.charge(2, 4);
         x.blow(1);
+        checks.due("mines, also blown and crushed ones", 3, x.ofSiege(12));
         checks.due("morale of the besiegers is 0", 0, x.ofSide(0, 3));
         checks.due("the siege is over by a mine", 2, x.ofSiege(1));
         checks.due("lifted", -1, x.ofSiege(2));
         checks.refuses("no mine any more", Checks.STATE, x, () -> x.mine(0, 0));
-        checks.refuses("no charge any more", Checks.STATE, x, () -> x.charge(0, 1));
-        checks.refuses("none is blown any more", Checks.STATE, x, () -> x.blow(0));
+        checks.refuses("no charge any more", Checks.STATE, x, () -> x.charge(2, 1));
+        checks.refuses("none is blown any more", Checks.STATE, x, () -> x.blow(2));
     }
 
     private static void blowWrong() {

@@ -8,6 +8,7 @@ final class OrdersTest {
         aim();
         haul();
         haulWrong();
+        haulDismounted();
         right();
         rightedGunIsCool();
         rightByTired();
@@ -208,11 +209,22 @@ final class OrdersTest {
         checks.fails("both companies were fresh too long", true);
     }
 
+    private static void haulDismounted() {
+        Siegelines x = outgunned();
+        aimAll(x, 12);
+        x.order(1, 4, 21);
+        x.pass(1);
+        checks.due("dismounted", 1, x.ofGun(0, 5));
+        checks.due("it is hauled all the same", 3, x.haul(0, 21));
+        checks.due("where it is", 21, x.ofGun(0, 1));
+        checks.due("still dismounted", 1, x.ofGun(0, 5));
+    }
+
     /** A gun of the garrison at 12, that three of the besiegers at 9 can dismount in an hour; a company of 200 by it. */
     private static Siegelines outgunned() {
         Siegelines x = Fields.plain(9, 5);
         x.stores(0, 500, 500, 0, 60);
-        x.stores(1, 500, 500, 0, 60);
+        x.stores(1, 500, 0, 0, 60);
         x.gun(1, 12, 1);
         for (int i = 0; i < 3; i++) {
             x.gun(0, 9, 1);
@@ -411,6 +423,17 @@ final class OrdersTest {
         checks.refuses("no hour more", Checks.STATE, y, () -> y.pass(1));
         checks.due("the siege still goes on", 1, y.ofSiege(1));
         checks.due("men foreseen beyond 2400", 147, y.forecast(48, 2));
+        Siegelines z = Fields.plain(5, 5);
+        z.stores(0, 0, 100, 0, 6);
+        z.stores(1, 0, 9999, 0, 60);
+        z.company(0, 0, 10);
+        z.company(1, 24, 20);
+        z.begin();
+        for (int i = 0; i < 50; i++) {
+            z.pass(48);
+        }
+        checks.due("food for 100 days", 0, z.ofSide(0, 1));
+        checks.due("over the day beyond 2400", 2423, z.forecast(24, 0));
     }
 
     /** In the setting no order is taken, but wrong arguments come first. */
@@ -437,6 +460,18 @@ final class OrdersTest {
         checks.holds("it gives up", x.parley());
         refusesAll(x);
         checks.refuses("expel one", Checks.STATE, x, () -> x.expel(9));
+        Siegelines fought = outgunned();
+        fought.order(1, 0, 0);
+        aimAll(fought, 12);
+        fought.pass(1);
+        fought.order(0, 4, 1);
+        aimAll(fought, -1);
+        checks.due("dismounted", 1, fought.ofGun(0, 5));
+        for (int day = 0; day < 40 && !fought.parley(); day++) {
+            fought.pass(24);
+        }
+        checks.due("over", 2, fought.ofSiege(1));
+        checks.refuses("no gun is set right any more", Checks.STATE, fought, () -> fought.right(0));
         checks.refuses("begin again", Checks.STATE, x, () -> x.begin());
         checks.refuses("lay again", Checks.STATE, x, () -> x.lay(5, 5, 0));
         checks.refuses("no forecast", Checks.STATE, x, () -> x.forecast(1, 0));
@@ -444,6 +479,15 @@ final class OrdersTest {
 
     private static void refusesAll(Siegelines x) {
         checks.refuses("order", Checks.STATE, x, () -> x.order(0, 0, 0));
+        checks.refuses("order of no company", Checks.INDEX, x, () -> x.order(2, 7, 0));
+        checks.refuses("order at no square", Checks.INDEX, x, () -> x.order(1, 1, 25));
+        checks.refuses("order of a wrong kind", Checks.ARGUMENT, x, () -> x.order(1, 1, 24));
+        checks.refuses("aim of no gun", Checks.INDEX, x, () -> x.aim(1, 0));
+        checks.refuses("aim at no square", Checks.INDEX, x, () -> x.aim(0, 25));
+        checks.refuses("haul of no gun", Checks.INDEX, x, () -> x.haul(1, 1));
+        checks.refuses("haul to no square", Checks.INDEX, x, () -> x.haul(0, 25));
+        checks.refuses("right of no gun", Checks.INDEX, x, () -> x.right(1));
+        checks.refuses("mine of no company", Checks.INDEX, x, () -> x.mine(2, 4));
         checks.refuses("aim", Checks.STATE, x, () -> x.aim(0, 0));
         checks.refuses("haul", Checks.STATE, x, () -> x.haul(0, 1));
         checks.refuses("right", Checks.STATE, x, () -> x.right(0));

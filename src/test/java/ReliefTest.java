@@ -356,11 +356,14 @@ final class ReliefTest {
     private static void noGarrison() {
         Siegelines x = Fields.plain(5, 5);
         x.stores(0, 99, 99, 9, 60);
+        x.town(101, 0, 10);
+        x.gun(0, 0, 1);
         x.gun(0, 0, 1);
         x.company(0, 0, 9);
         x.company(1, 2, 12);
         x.company(0, 20, 9);
         x.begin();
+        x.aim(1, 3);
         x.aim(0, 2);
         x.order(0, 3, 0);
         x.pass(9);
@@ -368,7 +371,8 @@ final class ReliefTest {
         checks.due("honours 0", 0, x.ofSiege(2));
         checks.due("the clock stays", 0, x.ofSiege(0));
         checks.due("behind the guns, ahead of the companies", 0, x.ofCompany(0, 3));
-        checks.due("people stay", 0, x.ofSiege(5));
+        checks.due("people stay", 101, x.ofSiege(5));
+        checks.due("all guns of that hour fired", 8, x.ofSide(0, 7));
         Siegelines y = Fields.plain(5, 5);
         y.company(0, 11, 100);
         y.company(1, 12, 1);
@@ -416,14 +420,17 @@ final class ReliefTest {
         checks.due("stormed: half of the people", 50, x.ofSiege(5));
         checks.due("honours", 0, x.ofSiege(2));
         Siegelines y = Fields.plain(5, 5);
-        y.stores(0, 99, 0, 9, 6);
-        y.stores(1, 0, 0, 9, 1);
-        y.company(0, 0, 10);
-        y.company(1, 24, 1);
+        y.stores(0, 99, 0, 9, 60);
+        y.stores(1, 99, 0, 9, 60);
         y.gun(0, 22, 1);
+        y.gun(1, 24, 1);
+        y.company(0, 20, 9);
+        y.company(1, 24, 9);
         y.begin();
         y.aim(0, 24);
+        y.aim(1, 20);
         y.pass(1);
+        checks.due("nobody is left of both", 0, y.ofSide(0, 5) + y.ofSide(1, 5));
         checks.due("no garrison: honours 0", 0, y.ofSiege(2));
     }
 

@@ -14,6 +14,8 @@ final class StormTest {
         winOverMany();
         winOverOneMan();
         refugeThatIsHeld();
+        heldByAttacker();
+        noHalfOfOne();
         quarters();
         eighths();
         lose();
@@ -21,6 +23,7 @@ final class StormTest {
         even();
         unopposed();
         spiked();
+        dismountedStays();
         thrownIn();
         stormGate();
         loserAtHome();
@@ -145,6 +148,21 @@ final class StormTest {
         x.order(2, 3, 0);
         x.pass(1);
         checks.due("663 * 5 / 4 less (714 + 663) * 3 / 2", 828 - 2065, x.storm(0, 12));
+        int[] works = {4, 6};
+        int[] times = {3, 2};
+        for (int i = 0; i < 2; i++) {
+            Siegelines y = Fields.plain(5, 5);
+            y.ground(12, 0, 0, works[i], 0);
+            y.stores(0, 0, 0, 0, 1);
+            y.stores(1, 0, 0, 0, 1);
+            y.company(0, 11, 1);
+            y.company(1, 12, 1);
+            y.begin();
+            y.order(1, 3, 0);
+            y.pass(1);
+            y.order(1, 2, 0);
+            checks.due("663 times the work first, then 3 / 2", 714 * 5 / 4 - 663 * times[i] * 3 / 2, y.storm(0, 12));
+        }
     }
 
     private static void guards() {
@@ -285,6 +303,38 @@ final class StormTest {
             x.pass(1);
             checks.due("not there", work == 4 ? 13 : 24, x.ofCompany(2, 1));
             checks.due("men", work == 4 ? 30 : 15, x.ofCompany(2, 2));
+        }
+    }
+
+    /** The cover at 11, out of which besiegers storm, is no refuge: they are still there. */
+    private static void heldByAttacker() {
+        Siegelines x = Fields.plain(5, 5);
+        x.ground(11, 0, 0, 4, 0);
+        x.company(0, 10, 200);
+        x.company(1, 12, 40);
+        x.begin();
+        x.order(0, 5, 11);
+        x.pass(1);
+        x.order(0, 5, 12);
+        x.pass(1);
+        checks.due("the winner is there", 12, x.ofCompany(0, 1));
+        checks.due("the loser is on gate", 24, x.ofCompany(1, 1));
+        checks.due("with half of 30", 15, x.ofCompany(1, 2));
+    }
+
+    /** Without a refuge half of what is left goes, too: of 1 nobody, of 3 one. */
+    private static void noHalfOfOne() {
+        int[] men = {2, 3, 4, 5, 8};
+        int[] left = {1, 1, 2, 2, 3};
+        for (int i = 0; i < men.length; i++) {
+            Siegelines x = Fields.plain(5, 5);
+            x.company(0, 11, 200);
+            x.company(1, 12, men[i]);
+            x.begin();
+            x.order(0, 5, 12);
+            x.pass(1);
+            checks.due("left of " + men[i] + " without a refuge", left[i], x.ofCompany(1, 2));
+            checks.due("on gate", 24, x.ofCompany(1, 1));
         }
     }
 
@@ -441,6 +491,28 @@ final class StormTest {
         z.order(0, 5, 12);
         z.pass(1);
         checks.due("not by who loses", 0, z.ofGun(0, 5));
+    }
+
+    private static void dismountedStays() {
+        Siegelines x = Fields.plain(5, 5);
+        x.stores(0, 500, 500, 5, 60);
+        x.ground(12, 0, 0, 4, 0);
+        x.gun(1, 12, 1);
+        for (int i = 0; i < 3; i++) {
+            x.gun(0, 10, 1);
+        }
+        x.company(0, 11, 100);
+        x.company(1, 24, 50);
+        x.begin();
+        for (int gun = 1; gun <= 3; gun++) {
+            x.aim(gun, 12);
+        }
+        x.pass(1);
+        checks.due("dismounted", 1, x.ofGun(0, 5));
+        x.order(0, 5, 12);
+        x.pass(1);
+        checks.due("the besiegers are there", 12, x.ofCompany(0, 1));
+        checks.due("it is not spiked", 1, x.ofGun(0, 5));
     }
 
     private static void thrownIn() {
