@@ -467,15 +467,15 @@ final class CompaniesTest {
         checks.due("9 at most", 9, y.ofSquare(18, 0));
     }
 
-    /** A breach that has toil of 79, by companies of 150 and 10, is a wall by 1 more; a wall of 58 is 60 in two hours. */
+    /** A breach that has toil of 79, by companies of 150 and 10, is a wall by 1 more; a wall of 57 is 60 in two hours. */
     private static void mendByLittle() {
         Siegelines x = Fields.plain(5, 5);
         x.ground(18, 0, 0, 6, 0);
-        x.ground(22, 0, 0, 1, 58);
+        x.ground(22, 0, 0, 1, 57);
         x.company(0, 0, 10);
         x.company(1, 17, 150);
         x.company(1, 23, 19);
-        x.company(1, 21, 39);
+        x.company(1, 21, 59);
         x.begin();
         x.order(1, 6, 18);
         x.pass(5);
@@ -490,7 +490,7 @@ final class CompaniesTest {
         int[] firm = {59, 60, 60};
         for (int want : firm) {
             x.pass(1);
-            checks.due("39 men by 1", want, x.ofSquare(22, 3));
+            checks.due("59 men by 2, to 60", want, x.ofSquare(22, 3));
         }
     }
 

@@ -37,6 +37,10 @@ final class GunsTest {
         }
         x.ground(12, 0, 0, 2, 0);
         checks.due("top below 0", -4, x.ofSquare(12, 5));
+        x.ground(0, 3, 0, 0, 0);
+        x.ground(24, 4, 0, 3, 0);
+        checks.due("top of the first square", 6, x.ofSquare(0, 5));
+        checks.due("top of the last one", 12, x.ofSquare(24, 5));
         x.company(0, 12, 5);
         x.company(0, 12, 6);
         x.company(1, 12, 7);

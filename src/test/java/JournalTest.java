@@ -9,6 +9,8 @@ final class JournalTest {
         forecastTells();
         forecastOver();
         forecastOfGuns();
+        forecastOfHeat();
+        forecastOfGround();
         forecastOfStorm();
         forecastOfLetters();
         forecastOfRelief();
@@ -191,6 +193,66 @@ final class JournalTest {
         }
     }
 
+    private static void forecastOfHeat() {
+        Siegelines x = Fields.plain(9, 5);
+        x.stores(0, 99, 999, 9, 60);
+        x.gun(0, 9, 1);
+        x.company(0, 0, 9);
+        x.company(1, 12, 200);
+        x.begin();
+        x.aim(0, 20);
+        x.pass(3);
+        x.aim(0, 12);
+        checks.due("one shot by a heat of 3", 197, x.forecast(1, 3));
+        foretells("a hot gun", x, 1);
+    }
+
+    /** A company that digs at 1, seen by a gun: with toil and a gabion it leaves its square under fire. Then heights. */
+    private static void forecastOfGround() {
+        int[] gabions = {0, 1};
+        for (int had : gabions) {
+            Siegelines x = Fields.plain(9, 5);
+            x.stores(0, 0, 999, had, 60);
+            x.stores(1, 999, 999, 0, 60);
+            x.gun(1, 3, 1);
+            x.company(0, 0, 190);
+            x.company(1, 44, 9);
+            x.begin();
+            x.order(0, 1, 1);
+            x.pass(1);
+            checks.due("toil", 19, x.ofSquare(1, 4));
+            x.order(0, 0, 0);
+            x.pass(1);
+            x.order(0, 1, 1);
+            x.aim(0, 0);
+            checks.due("men that will be hit: 12 and 9, or 12 alone", had == 0 ? 169 : 178, x.forecast(2, 2));
+            foretells("toil and gabions", x, 2);
+        }
+        Siegelines hidden = Fields.plain(9, 5);
+        hidden.camp(20, 44);
+        hidden.ground(1, 2, 0, 0, 0);
+        hidden.stores(1, 99, 999, 0, 60);
+        hidden.gun(1, 2, 1);
+        hidden.company(0, 0, 100);
+        hidden.company(1, 44, 9);
+        hidden.begin();
+        hidden.aim(0, 0);
+        checks.due("hidden by a height", 100, hidden.forecast(1, 2));
+        foretells("heights", hidden, 1);
+        Siegelines high = Fields.plain(9, 5);
+        high.camp(20, 44);
+        high.ground(0, 4, 0, 0, 0);
+        high.ground(1, 2, 0, 0, 0);
+        high.stores(1, 99, 999, 0, 60);
+        high.gun(1, 0, 1);
+        high.company(0, 2, 100);
+        high.company(1, 44, 9);
+        high.begin();
+        high.aim(0, 2);
+        checks.due("seen from the height of 0", 88, high.forecast(1, 2));
+        foretells("the height of 0", high, 1);
+    }
+
     private static void forecastOfStorm() {
         Siegelines x = Fields.plain(5, 5);
         x.company(0, 11, 100);
@@ -305,8 +367,14 @@ final class JournalTest {
         }
         Siegelines y = Fields.plain(5, 5);
         y.ground(12, 0, 0, 1, 1);
-        y.stores(0, 0, 0, 0, 1);
+        y.stores(0, 7, 0, 0, 1);
+        y.stores(1, 5, 0, 0, 1);
         checks.holds("in the setting", y.isSound());
+        y.company(0, 0, 200);
+        y.company(1, 24, 1);
+        checks.holds("with companies", y.isSound());
+        y.begin();
+        checks.holds("as it begins with powder", y.isSound());
     }
 
     /** The digest as the document tells it, from what is asked. */
@@ -362,6 +430,20 @@ final class JournalTest {
         y.charge(1, 9);
         y.pass(5);
         checks.due("with mines", digestOf(y, 30, 0, 2, 2), y.digest());
+        Siegelines z = Fields.plain(9, 5);
+        z.stores(0, 99, 99, 9, 60);
+        z.gun(0, 9, 2);
+        z.gun(1, 12, 1);
+        z.company(0, 0, 9);
+        z.company(1, 12, 90);
+        z.begin();
+        z.aim(0, 12);
+        z.pass(2);
+        checks.due("hits", 7, z.ofGun(1, 4));
+        checks.due("with hits", digestOf(z, 45, 2, 2, 0), z.digest());
+        z.pass(2);
+        checks.due("dismounted", 1, z.ofGun(1, 5));
+        checks.due("with a gun that is dismounted", digestOf(z, 45, 2, 2, 0), z.digest());
     }
 
     private static void sameCallsSameAnswers() {

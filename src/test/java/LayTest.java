@@ -180,6 +180,16 @@ final class LayTest {
         x.company(1, 4, 10);
         checks.due("lay again", 0, x.lay(6, 6, 100));
         checks.due("all that was told is gone", Fields.plain(6, 6).digest(), x.digest());
+        for (int side = 0; side < 2; side++) {
+            for (int what = 0; what <= 12; what++) {
+                checks.due("ofSide of " + what, what == 3 ? 60 : 0, x.ofSide(side, what));
+            }
+        }
+        checks.due("people", 0, x.ofSiege(5));
+        checks.due("days", 10, x.ofSiege(8));
+        checks.refuses("no gun", Checks.INDEX, x, () -> x.ofGun(0, 0));
+        checks.refuses("no company", Checks.INDEX, x, () -> x.ofCompany(0, 0));
+        checks.due("the first gun again", 0, x.gun(0, 0, 3));
         x.company(0, 0, 100);
         x.company(1, 35, 100);
         x.begin();

@@ -344,6 +344,14 @@ final class MinesTest {
         checks.due("the garrison's", 5, x.charge(1, 5));
         checks.due("its powder", 195, x.ofSide(1, 0));
         checks.holds("sound with charges", x.isSound());
+        x.mine(1, 0);
+        x.charge(2, 3);
+        checks.holds("sound with two of one side", x.isSound());
+        x.blow(1);
+        x.blow(2);
+        checks.due("both are spent", 8, x.ofSide(1, 8));
+        checks.due("powder that is left", 192, x.ofSide(1, 0));
+        checks.holds("sound when they are blown", x.isSound());
         x.charge(0, 60);
         x.charge(0, 60);
         checks.refuses("more than there is", Checks.STATE, x, () -> x.charge(0, 20));
