@@ -264,6 +264,17 @@ final class JournalTest {
         x.order(0, 5, 12);
         checks.due("tired of 9 it will lose a quarter", 75, x.forecast(1, 2));
         foretells("a storm of tired ones", x, 1);
+        Siegelines y = Fields.plain(5, 5);
+        y.stores(1, 99, 99, 0, 60);
+        y.gun(1, 3, 1);
+        y.company(0, 11, 49);
+        y.company(1, 12, 200);
+        y.begin();
+        y.aim(0, 0);
+        y.order(1, 5, 11);
+        checks.due("19 flee to camp", 19, y.forecast(1, 2));
+        checks.due("there 9 are lost", 10, y.forecast(2, 2));
+        foretells("losers on camp", y, 2);
     }
 
     /** Besiegers with so much morale, one of them at guard or none, and a letter that is sent at once. */
