@@ -57,73 +57,10 @@ final class RunsTest {
     }
 
     private static String answer(Siegelines x, String[] call) {
-        int[] v = new int[6];
-        for (int i = 1; i < call.length; i++) {
-            v[i] = Integer.parseInt(call[i]);
+        int[] arguments = new int[call.length - 1];
+        for (int i = 0; i < arguments.length; i++) {
+            arguments[i] = Integer.parseInt(call[i + 1]);
         }
-        try {
-            return call[0].startsWith("of") || call.length > 1 && isAsked(call[0])
-                ? asked(x, call[0], v) : told(x, call[0], v);
-        } catch (RuntimeException thrown) {
-            return thrown.getClass().getSimpleName();
-        }
-    }
-
-    private static boolean isAsked(String name) {
-        switch (name) {
-            case "sees": case "underFire": case "row": case "march": case "storm": case "sap": case "target":
-            case "forecast":
-                return true;
-            default:
-                return false;
-        }
-    }
-
-    private static String told(Siegelines x, String name, int[] v) {
-        switch (name) {
-            case "lay": return "" + x.lay(v[1], v[2], v[3]);
-            case "ground": return "" + x.ground(v[1], v[2], v[3], v[4], v[5]);
-            case "camp": return "" + x.camp(v[1], v[2]);
-            case "stores": return "" + x.stores(v[1], v[2], v[3], v[4], v[5]);
-            case "town": return "" + x.town(v[1], v[2], v[3]);
-            case "gun": return "" + x.gun(v[1], v[2], v[3]);
-            case "company": return "" + x.company(v[1], v[2], v[3]);
-            case "muster": return "" + x.muster(v[1]);
-            case "begin": return "" + x.begin();
-            case "order": return "" + x.order(v[1], v[2], v[3]);
-            case "aim": return "" + x.aim(v[1], v[2]);
-            case "haul": return "" + x.haul(v[1], v[2]);
-            case "right": return "" + x.right(v[1]);
-            case "mine": return "" + x.mine(v[1], v[2]);
-            case "charge": return "" + x.charge(v[1], v[2]);
-            case "blow": return "" + x.blow(v[1]);
-            case "letter": return "" + x.letter();
-            case "expel": return "" + x.expel(v[1]);
-            case "parley": return x.parley() ? "1" : "0";
-            case "pass": return "" + x.pass(v[1]);
-            case "isSound": return x.isSound() ? "1" : "0";
-            case "digest": return "" + x.digest();
-            default: return "no such call";
-        }
-    }
-
-    private static String asked(Siegelines x, String name, int[] v) {
-        switch (name) {
-            case "ofSquare": return "" + x.ofSquare(v[1], v[2]);
-            case "ofGun": return "" + x.ofGun(v[1], v[2]);
-            case "ofCompany": return "" + x.ofCompany(v[1], v[2]);
-            case "ofMine": return "" + x.ofMine(v[1], v[2]);
-            case "ofSide": return "" + x.ofSide(v[1], v[2]);
-            case "ofSiege": return "" + x.ofSiege(v[1]);
-            case "sees": return x.sees(v[1], v[2]) ? "1" : "0";
-            case "underFire": return "" + x.underFire(v[1], v[2], v[3]);
-            case "row": return x.row(v[1]);
-            case "march": return "" + x.march(v[1], v[2]);
-            case "storm": return "" + x.storm(v[1], v[2]);
-            case "sap": return "" + x.sap(v[1]);
-            case "target": return "" + x.target(v[1]);
-            case "forecast": return "" + x.forecast(v[1], v[2]);
-            default: return "no such call";
-        }
+        return Calls.answer(x, call[0], arguments);
     }
 }
