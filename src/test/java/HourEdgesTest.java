@@ -261,11 +261,12 @@ final class HourEdgesTest {
     /** "Behind these, if nothing was told in between": each of 1 to 48 HOURS. */
     private static void forecastOfEachHour() {
         for (int seed = 0; seed < 100; seed += 9) {
+            Siegelines asked = mustered(seed);
             Siegelines x = mustered(seed);
             int[][] told = new int[49][5];
             for (int hours = 1; hours <= 48; hours++) {
                 for (int what = 0; what <= 4; what++) {
-                    told[hours][what] = x.forecast(hours, what);
+                    told[hours][what] = asked.forecast(hours, what);
                 }
             }
             for (int hours = 1; hours <= 48 && x.ofSiege(1) == 1; hours++) {

@@ -424,11 +424,17 @@ final class JournalTest {
 
     private static void digests() {
         checks.due("a new object", digestOf(new Siegelines(), 0, 0, 0, 0), new Siegelines().digest());
-        Siegelines x = mustered(17);
-        checks.due("as it begins", digestOf(x, 144, 6, 8, 0), x.digest());
-        for (int day = 0; day < 6; day++) {
-            x.pass(10);
-            checks.due("digest of day " + day, digestOf(x, 144, 6, 8, 0), x.digest());
+        for (int tens = 0; tens <= 6; tens++) {
+            Siegelines x = new Siegelines();
+            x.lay(9, 9, 17);
+            x.muster(17);
+            x.begin();
+            x.order(0, 1, 1);
+            x.aim(0, 40);
+            for (int ten = 0; ten < tens; ten++) {
+                x.pass(10);
+            }
+            checks.due("digest after tens of hours: " + tens, digestOf(x, 81, 6, 8, 0), x.digest());
         }
         Siegelines y = Fields.plain(5, 6);
         y.ground(1, 0, 0, 5, 0);
