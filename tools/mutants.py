@@ -31,11 +31,43 @@ RUN_ALL = '''public class RunAll { public static void main(String[] tests) throw
 } }'''
 
 
+def operand_end(line, at, step):
+    """Where the operand that begins at this place ends: at the next && or ||, ?, ; or at a bracket of its own."""
+    depth = 0
+    while 0 <= at < len(line):
+        sign = line[at]
+        opens, closes = ('(', ')') if step > 0 else (')', '(')
+        if sign == opens:
+            depth += 1
+        elif sign == closes:
+            if depth == 0:
+                return at
+            depth -= 1
+        elif depth == 0 and (sign in '?;=' and line[at - 1:at + 1] not in ('==', '!=', '<=', '>=')
+                             and line[at:at + 2] != '==' or line[at:at + 2] in ('&&', '||')
+                             or line[at - 1:at + 1] in ('&&', '||')):
+            return at
+        at += step
+    return at
+
+
+def without_operands(line):
+    """One of the conditions that && and || join is left out."""
+    for at in re.finditer(r' (&&|\|\|) ', line):
+        right = operand_end(line, at.end(), 1)
+        yield line[:at.start()] + line[right:]
+        left = operand_end(line, at.start() - 1, -1)
+        word = re.match(r'\s*(return )?', line[left + 1:at.start()]).group() if left < 0 or line[left] != '(' else ''
+        yield line[:left + 1] + (word or (' ' if line[left] in '=|&?' else '')) + line[at.end():]
+
+
 def changes_of(line):
     """Lines to put in the place of this one."""
     text = line.strip()
     if not text or text.startswith(('/**', '*', '//')):
         return
+    for new in without_operands(line):
+        yield new
     for old, news in SWAPS:
         for at in re.finditer(re.escape(old), line):
             for new in news:

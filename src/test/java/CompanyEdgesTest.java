@@ -38,6 +38,7 @@ final class CompanyEdgesTest {
         mendWithBesiegersThere();
         sapOnAnyGround();
         sapOfNone();
+        goneCompany();
         checks.end();
     }
 
@@ -916,5 +917,47 @@ final class CompanyEdgesTest {
         x.order(0, 3, 0);
         x.pass(10);
         return x.sap(0);
+    }
+
+    /** "With 0 it is GONE": what is asked of it and told to it, and that it is in nobody's way. */
+    private static void goneCompany() {
+        Siegelines x = Fields.plain(9, 5);
+        x.ground(12, 0, 0, 5, 0);
+        x.ground(15, 5, 0, 0, 0);
+        x.stores(1, 99, 999, 0, 60);
+        x.gun(1, 15, 1);
+        x.company(0, 12, 4);
+        x.company(1, 14, 200);
+        x.company(0, 0, 9);
+        x.begin();
+        x.aim(0, 12);
+        x.order(0, 2, 0);
+        x.pass(1);
+        checks.due("gone", 0, x.ofCompany(0, 2));
+        checks.due("where it was", 12, x.ofCompany(0, 1));
+        checks.due("no force", 0, x.ofCompany(0, 6));
+        checks.due("companies", 1, x.ofSide(0, 6));
+        checks.due("men there", 0, x.ofSquare(12, 8));
+        checks.due("a sign of the trench", '=', x.row(1).charAt(3));
+        checks.due("no march", -1, x.march(0, 0));
+        checks.due("nor where it is", -1, x.march(0, 12));
+        checks.due("no storm", -1, x.storm(0, 13));
+        checks.due("no sap", -1, x.sap(0));
+        checks.refuses("no order", Checks.STATE, x, () -> x.order(0, 0, 0));
+        checks.refuses("no mine", Checks.STATE, x, () -> x.mine(0, 0));
+        int tired = x.ofCompany(0, 3);
+        x.pass(24);
+        checks.due("it does not act", tired, x.ofCompany(0, 3));
+        checks.due("it eats nothing", 979, x.ofSide(1, 1));
+        Siegelines way = Fields.plain(5, 5);
+        way.company(0, 1, 1);
+        way.company(1, 2, 200);
+        way.company(0, 0, 9);
+        way.begin();
+        checks.due("past him there is no way", -1, way.march(1, 1));
+        way.order(0, 5, 2);
+        way.pass(1);
+        checks.due("he is gone", 0, way.ofCompany(0, 2));
+        checks.due("the way is free", 1, way.march(1, 1));
     }
 }

@@ -68,8 +68,23 @@ final class GroundEdgesTest {
             checks.due(name + " soil of " + square, t.soil[square], x.ofSquare(square, 1));
             checks.due(name + " owner of " + square, t.owner(square), x.ofSquare(square, 7));
         }
+        laidWalls(name, t, seed);
         checks.refuses(name + " has no square more", Checks.INDEX, x, () -> x.ofSquare(t.count, 0));
         checks.refuses(name + " has no row more", Checks.INDEX, x, () -> x.row(high).length());
+    }
+
+    /** "The ring is WALL, FIRM 40"; CAMP and GATE are where a muster is held. */
+    private static void laidWalls(String name, Terrain t, int seed) {
+        Siegelines x = new Siegelines();
+        x.lay(t.wide, t.high, seed);
+        for (int square = 0; square < t.count; square++) {
+            checks.due(name + " firm of " + square, t.work[square] == 1 ? 40 : 0, x.ofSquare(square, 3));
+            checks.due(name + " toil of " + square, 0, x.ofSquare(square, 4));
+        }
+        x.muster(0);
+        checks.due(name + " camp", 0, x.ofCompany(0, 1));
+        checks.due(name + " gate", t.gate, x.ofCompany(4, 1));
+        checks.refuses(name + " no wall on gate", Checks.ARGUMENT, x, () -> x.ground(t.gate, 0, 0, 1, 9));
     }
 
     /** "Its SQUARES are numbered row by row from above, each row from the left on, from 0". */

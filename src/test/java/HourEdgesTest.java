@@ -20,6 +20,7 @@ final class HourEdgesTest {
         forecastOfFewestAndMost();
         forecastBeyond2400();
         forecastOfTheEnd();
+        forecastBehindTheEnd();
         forecastOfLifted();
         forecastOfFalls();
         forecastTakesNothing();
@@ -332,6 +333,33 @@ final class HourEdgesTest {
         }
         checks.due("it is not over now", 1, x.ofSiege(1));
         checks.due("nor on gate", 23, x.ofCompany(0, 1));
+    }
+
+    /** "And no further HOUR": guns that would fire in the next one do not, neither in a forecast nor in a pass. */
+    private static void forecastBehindTheEnd() {
+        Siegelines x = Fields.plain(9, 5);
+        x.ground(20, 0, 0, 1, 5);
+        x.stores(0, 999, 99, 0, 60);
+        x.town(100, 0, 10);
+        x.gun(0, 9, 1);
+        x.gun(0, 18, 1);
+        x.company(0, 43, 10);
+        x.company(1, 12, 100);
+        x.begin();
+        x.aim(0, 12);
+        x.aim(1, 20);
+        x.order(0, 5, 44);
+        for (int hours = 1; hours <= 48; hours += 47) {
+            int[] want = {0, 0, 10, 88, 0};
+            for (int what = 0; what <= 4; what++) {
+                checks.due(name("forecast behind the end", hours, what), want[what], x.forecast(hours, what));
+            }
+        }
+        checks.due("the clock", 0, x.pass(48));
+        checks.due("men of the garrison", 88, x.ofSide(1, 5));
+        checks.due("no fall", 0, x.ofSiege(4));
+        checks.due("shots", 8, x.ofSide(0, 7));
+        checks.due("people are halved once", 50, x.ofSiege(5));
     }
 
     private static void forecastOfLifted() {

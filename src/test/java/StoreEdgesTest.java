@@ -120,6 +120,12 @@ final class StoreEdgesTest {
             }
             checks.due("people", 200 + d[20], x.ofSiege(5));
             checks.due("days", 4 + d[22] % 8, x.ofSiege(8));
+            int food = x.ofSide(0, 1);
+            int eaten = x.ofSide(0, 5) / 10;
+            x.begin();
+            x.pass(24);
+            checks.due("supply", 5 + d[21] % 10, x.ofSide(0, 0) - 100 - d[0]);
+            checks.due("of food, too", Math.max(0, food - eaten) + 5 + d[21] % 10, x.ofSide(0, 1));
             checks.refuses("no ninth company", Checks.INDEX, x, () -> x.ofCompany(8, 0));
             checks.refuses("no seventh gun", Checks.INDEX, x, () -> x.ofGun(6, 0));
         }

@@ -347,6 +347,16 @@ final class TermsEdgesTest {
         gone.order(0, 5, 13);
         gone.pass(1);
         checks.due("gone upon it", 3, gone.ofSiege(3));
+        Siegelines beside = Fields.plain(5, 5);
+        beside.ground(7, 0, 0, 6, 0);
+        beside.company(0, 12, 1);
+        beside.company(1, 13, 100);
+        beside.company(0, 0, 9);
+        beside.begin();
+        checks.due("one man beside it", 4, beside.ofSiege(3));
+        beside.order(0, 5, 13);
+        beside.pass(1);
+        checks.due("gone beside it", 3, beside.ofSiege(3));
     }
 
     /** "5, if one stands in the TOWN": of the SIDE 0, not beside it. */
