@@ -31,6 +31,7 @@ final class HourEdgesTest {
         digestWrapsAround();
         digestOfAll();
         digestTwice();
+        lastOf512Calls();
         checks.end();
     }
 
@@ -564,5 +565,30 @@ final class HourEdgesTest {
         Siegelines y = Boards.siege();
         y.pass(1);
         checks.fails("another one an hour later", y.digest() == x.digest());
+    }
+
+    /** "An object is used for at most 512 calls after it has been made": the 512th is answered as the first ones are. */
+    private static void lastOf512Calls() {
+        Siegelines hours = quiet();
+        // quiet() makes six calls.
+        for (int call = 7; call <= 512; call++) {
+            checks.due(name("call", call), call - 6, hours.pass(1));
+        }
+        Siegelines asked = Boards.map();
+        // map() makes eight.
+        for (int call = 9; call <= 511; call++) {
+            Calls.answer(asked, call % 2 == 0 ? "lay" : "ground", 13, call, call, call, call);
+        }
+        checks.due("behind 503 refused calls", Boards.map().digest(), asked.digest());
+        Siegelines laid = new Siegelines();
+        for (int call = 1; call <= 511; call++) {
+            laid.lay(5 + call % 8, 5 + call % 7, call % 101);
+        }
+        checks.due("the 512th map", 0, laid.lay(6, 5, 100));
+        Siegelines parted = quiet();
+        for (int call = 7; call <= 511; call++) {
+            parted.forecast(1 + call % 48, call % 5);
+        }
+        checks.due("behind 505 forecasts", 48, parted.pass(48));
     }
 }
