@@ -1,6 +1,6 @@
 """Changes one operator or number of the class at a time and tells which changes no test notices.
 
-    python3 tools/mutants.py TEST,TEST,.. FILE     (some ten minutes on eight cores)
+    python3 tools/mutants.py TEST,TEST,.. FILE     (some twenty minutes on eight cores)
 
 What lives is written to FILE: a test that is missing, or a change that means the same.
 """

@@ -23,6 +23,7 @@ final class GroundEdgesTest {
         nextSquareIsNeverHidden();
         justHidden();
         endsDoNotHide();
+        trenchIsLowOnAnySquare();
         linesRoundedBelowZero();
         rakedOnAnyGround();
         rakedAtTheEdge();
@@ -328,6 +329,22 @@ final class GroundEdgesTest {
         checks.holds("to the wall over two squares", x.sees(12, 10));
         x.ground(11, 9, 0, 1, 9);
         checks.fails("but not over one", x.sees(14, 10));
+    }
+
+    /** "BODY is TOP and 1, but TOP less 2 for a TRENCH": on each SQUARE, the first and the last one too. */
+    private static void trenchIsLowOnAnySquare() {
+        for (int square = 0; square < 25; square++) {
+            int step = square % 5 < 2 ? 1 : -1;
+            for (int work : new int[] {0, 5}) {
+                Siegelines x = Fields.plain(5, 5);
+                x.camp((square + 7) % 25, (square + 12) % 25);
+                x.ground(square, 1, 0, work, 0);
+                x.ground(square + step, 1, 0, 0, 0);
+                checks.due("body of work " + work + " on " + square, work == 5 ? 0 : 3, x.ofSquare(square, 6));
+                checks.due("whether work " + work + " on " + square + " is seen", work == 5 ? 0 : 1,
+                        x.sees(square + 2 * step, square) ? 1 : 0);
+            }
+        }
     }
 
     /** "(Both rounded down, also below 0)": a line to the left or upwards is not the one to the right, mirrored. */

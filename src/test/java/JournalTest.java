@@ -9,6 +9,7 @@ final class JournalTest {
         forecastTells();
         forecastOver();
         forecastOfGuns();
+        forecastOfGunSetRight();
         forecastOfHeat();
         forecastOfGround();
         forecastOfStorm();
@@ -191,6 +192,27 @@ final class JournalTest {
             checks.due("no men will be lost", 200, x.forecast(1, 2));
             foretells("a gun with hits", x, 1);
         }
+    }
+
+    /** A gun that is dismounted has no shot, though nobody fires at it any more; set right, it has four. */
+    private static void forecastOfGunSetRight() {
+        Siegelines x = Fields.plain(9, 5);
+        x.stores(0, 99, 999, 9, 60);
+        x.stores(1, 99, 999, 9, 60);
+        x.gun(0, 9, 1);
+        x.gun(1, 12, 1);
+        x.company(0, 0, 200);
+        x.company(1, 12, 100);
+        x.begin();
+        x.aim(0, 12);
+        x.pass(4);
+        x.aim(0, -1);
+        x.aim(1, 0);
+        checks.due("it is dismounted", 1, x.ofGun(1, 5));
+        checks.due("no men will be lost by it", 200, x.forecast(1, 2));
+        x.right(1);
+        checks.due("four shots will come", 188, x.forecast(1, 2));
+        foretells("a gun that was set right", x, 1);
     }
 
     private static void forecastOfHeat() {

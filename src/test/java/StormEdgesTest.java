@@ -58,7 +58,7 @@ final class StormEdgesTest {
         }
     }
 
-    /** "And is no WALL": of both sides; all other works are stormed (a DITCH as below). */
+    /** "And is no WALL": of both sides, nor is it mended so; all other works are stormed (a DITCH as below). */
     private static void stormByWork() {
         for (int side = 0; side <= 1; side++) {
             for (int work = 0; work <= 7; work++) {
@@ -72,6 +72,7 @@ final class StormEdgesTest {
                 x.order(0, 5, GOAL);
                 x.pass(1);
                 checks.due("where it is", isTaken ? GOAL : FROM, x.ofCompany(0, 1));
+                checks.due("how firm it is", work == 1 ? 9 : 0, x.ofSquare(GOAL, 3));
             }
         }
     }
